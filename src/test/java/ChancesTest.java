@@ -237,8 +237,17 @@ public final class ChancesTest {
         due("assignedDay(2) of two", mail.assignedDay(2), 1);
         mail.undo();
         due("assignmentTotal() after undo", mail.assignmentTotal(), 18 * WHOLE_TOTAL);
+        due("launch(0, 0)", mail.launch(0, 0), 3);
+        due("assignedDay(0), not ready", mail.assignedDay(0), -2);
+        due("assignmentTotal() of balloons 1 and 2", mail.assignmentTotal(), 13 * WHOLE_TOTAL);
+        mail.launch(1, 0);
+        mail.launch(2, 0);
+        due("assignmentTotal() of none", mail.assignmentTotal(), 0);
+        due("assignedDay(2) of none", mail.assignedDay(2), -2);
         due("a new siege", Check.parse(mail, CERTAIN + "balloon 4 0;balloon 3 1;balloon 1 1;"), 0);
         due("assignmentTotal() of the new siege", mail.assignmentTotal(), 4 * WHOLE_TOTAL);
+        due("a smaller siege", Check.parse(mail, CERTAIN + "balloon 2 1;"), 0);
+        due("assignmentTotal() of the smaller siege", mail.assignmentTotal(), 2 * WHOLE_TOTAL);
     }
 
     private static void assignmentWithMoreBalloonsThanDays() {

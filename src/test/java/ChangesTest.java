@@ -8,9 +8,11 @@ public final class ChangesTest {
         eventsOfLaunches();
         eventsOfDays();
         latestEvents();
+        droppedEventsOfEachKind();
         wrongEvents();
         undoLaunch();
         undoDay();
+        undoneChangesLeaveNothing();
         undoRestoresTheDraws();
         undoDepths();
         undoRestoresDroppedEvents();
@@ -18,6 +20,7 @@ public final class ChangesTest {
         snapshots();
         snapshotSlots();
         snapshotsHoldEverything();
+        snapshotsHoldTheOrderOfLaunches();
         snapshotsAndUndo();
         CHECK.finish();
     }
@@ -85,6 +88,23 @@ public final class ChangesTest {
         dueEvent(mail, 15, 3, 0, 16);
     }
 
+    /** The events of each kind keep what belongs together while older ones are dropped. */
+    private static void droppedEventsOfEachKind() {
+        BalloonMail mail = Check.siege(ALTERNATING + "balloon 1 2;".repeat(4));
+        for (int day = 0; day < 8; day += 2) {
+            mail.launch(3 - day / 2, 0);
+            mail.nextDay();
+            mail.nextDay();
+        }
+        mail.nextDay();
+        int[][] due = {{3, 2, 2}, {5, 1, 3}, {5, 0, 4}, {4, 2, 4}, {4, 2, 4}, {3, 1, 4}, {5, 1, 5}, {5, 0, 6},
+            {4, 1, 6}, {4, 1, 6}, {3, 0, 6}, {5, 1, 7}, {5, 0, 8}, {4, 0, 8}, {4, 0, 8}, {5, 1, 9}};
+        due("eventCount()", mail.eventCount(), 16);
+        for (int index = 0; index < 16; index++) {
+            dueEvent(mail, index, due[index][0], due[index][1], due[index][2]);
+        }
+    }
+
     private static void wrongEvents() {
         BalloonMail mail = Check.siege(ALTERNATING);
         dueNoEvent(mail, 0);
@@ -147,6 +167,40 @@ public final class ChangesTest {
         due("eventCount()", mail.eventCount(), 2);
         due("nextDay() once more", mail.nextDay(), 0);
         due("answerDay(0)", mail.answerDay(0), 2);
+    }
+
+    /** What a change would have left is all taken back: other changes follow in its place. */
+    private static void undoneChangesLeaveNothing() {
+        BalloonMail mail = Check.siege("region 0 3 10;region 0 1 10;region 10 1 1;wind 0 10;wind 1 10;wind 2 10;"
+                + "turn 0 1 10;turn 1 2 10;balloon 5 1;balloon 5 1;balloon 5 4;letter 1 1;letter 2 2;");
+        mail.launch(0, 1);
+        mail.undo();
+        mail.nextDay();
+        mail.launch(1, 2);
+        mail.launch(0, 1);
+        due("nextReturn()", mail.nextReturn(), 2);
+        mail.nextDay();
+        due("eventCount()", mail.eventCount(), 6);
+        dueEvent(mail, 0, 5, 1, 1);
+        dueEvent(mail, 1, 3, 1, 1);
+        dueEvent(mail, 2, 3, 0, 1);
+        dueEvent(mail, 3, 5, 2, 2);
+        dueEvent(mail, 4, 4, 1, 2);
+        dueEvent(mail, 5, 4, 0, 2);
+        due("launch(2, 0)", mail.launch(2, 0), 2);
+        due("pigeonsLost()", mail.pigeonsLost(), 4);
+        mail.undo();
+        due("pigeonsLost() after undo", mail.pigeonsLost(), 0);
+        for (int k = 0; k < 4; k++) {
+            mail.undo();
+        }
+        due("day()", mail.day(), 0);
+        for (int round = 0; round < 15; round++) {
+            due("launch(0, 1)", mail.launch(0, 1), 3);
+            due("nextReturn()", mail.nextReturn(), 3);
+            mail.undo();
+            due("nextReturn() after undo", mail.nextReturn(), -2);
+        }
     }
 
     /** From the seed 1 the draws are 8 8 3 5 1 7 0 9 2 6. */
@@ -279,6 +333,36 @@ public final class ChangesTest {
             due("eventCount()", mail.eventCount(), 5);
             CHECK.due("restoreSnapshot(1)", mail.restoreSnapshot(1), true);
         }
+    }
+
+    /** The snapshot knows which balloons flew in which order, and when their pigeons come back. */
+    private static void snapshotsHoldTheOrderOfLaunches() {
+        BalloonMail mail = Check.siege("region 0 3 10;region 0 2 10;wind 0 10;wind 1 10;turn 0 1 10;"
+                + "balloon 5 1;balloon 5 1;balloon 5 1;loft 3;");
+        mail.saveSnapshot(1);
+        mail.launch(2, 0);
+        mail.nextDay();
+        mail.launch(1, 0);
+        mail.saveSnapshot(0);
+        CHECK.due("restoreSnapshot(1)", mail.restoreSnapshot(1), true);
+        mail.launch(0, 0);
+        mail.launch(1, 0);
+        mail.launch(2, 0);
+        mail.nextDay();
+        mail.nextDay();
+        CHECK.due("restoreSnapshot(0)", mail.restoreSnapshot(0), true);
+        due("pigeonsOnTheWay()", mail.pigeonsOnTheWay(), 2);
+        due("nextReturn()", mail.nextReturn(), 3);
+        mail.nextDay();
+        due("pigeonsInLoft()", mail.pigeonsInLoft(), 1);
+        mail.nextDay();
+        due("pigeonsInLoft()", mail.pigeonsInLoft(), 3);
+        due("eventCount()", mail.eventCount(), 5);
+        dueEvent(mail, 0, 3, 2, 0);
+        dueEvent(mail, 1, 5, 1, 1);
+        dueEvent(mail, 2, 3, 1, 1);
+        dueEvent(mail, 3, 4, 2, 3);
+        dueEvent(mail, 4, 4, 1, 3);
     }
 
     private static void snapshotsAndUndo() {

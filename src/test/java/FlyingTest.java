@@ -8,6 +8,7 @@ public final class FlyingTest {
     public static void main(String[] args) {
         daysAndWinds();
         drawsOfNextDay();
+        drawsWithoutTurns();
         turnsInOrderOfDeclaration();
         launchesDrawTheRegion();
         launchesDrawTheCapture();
@@ -52,6 +53,17 @@ public final class FlyingTest {
                 due("nextDay() with turns of weight " + weight, mail.nextDay(), wind);
             }
         }
+    }
+
+    /** nextDay draws even if there is nothing to choose. */
+    private static void drawsWithoutTurns() {
+        BalloonMail mail = Check.siege("region 8 1 0;wind 0 9;balloon 1 0;balloon 1 0;");
+        mail.nextDay();
+        due("launch draws 8 and 3", mail.launch(0, 0), 2);
+        mail.undo();
+        mail.undo();
+        due("launch draws 8 and 8", mail.launch(0, 0), 3);
+        due("launch draws 3 and 5", mail.launch(1, 0), 2);
     }
 
     private static void turnsInOrderOfDeclaration() {

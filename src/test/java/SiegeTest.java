@@ -13,6 +13,8 @@ public final class SiegeTest {
         parseAndItsBuffer();
         failedParseChangesNothing();
         parseRestoresInitialValues();
+        parseForgetsPigeonsOnTheWay();
+        siegesOneAfterAnother();
         errorPosition();
         tokens();
         regionsAndWinds();
@@ -159,6 +161,53 @@ public final class SiegeTest {
         CHECK.due("restoreSnapshot(1)", mail.restoreSnapshot(1), false);
     }
 
+    private static void parseForgetsPigeonsOnTheWay() {
+        String text = "region 0 2 5;wind 0 10;" + "balloon 1 1;".repeat(10) + "loft 10;";
+        BalloonMail mail = Check.siege(text);
+        for (int round = 0; round < 3; round++) {
+            for (int balloon = 0; balloon < 10; balloon++) {
+                due("launch(" + balloon + ", 0)", mail.launch(balloon, 0), 3);
+            }
+            due("eventCount()", mail.eventCount(), 10);
+            due("pigeonsInLoft()", mail.pigeonsInLoft(), 0);
+            due("pigeons on the way or lost", mail.pigeonsOnTheWay() + mail.pigeonsLost(), 10);
+            due("nextReturn()", mail.nextReturn(), 2);
+            mail.nextDay();
+            due("parse", Check.parse(mail, text), 0);
+            due("pigeonsOnTheWay()", mail.pigeonsOnTheWay(), 0);
+            due("pigeonsLost()", mail.pigeonsLost(), 0);
+            due("nextReturn()", mail.nextReturn(), -2);
+        }
+    }
+
+    /** Nothing of an earlier siege, nor of a text with an error, is left in a later one. */
+    private static void siegesOneAfterAnother() {
+        String full = TWO_REGIONS + "wind 0 5 1 5;wind 1 10;wind;turn 0 1 10;turn 1 2 9;turn 2 0 10;start 2;"
+                + "balloon 9 1;balloon 9 1;letter 2 3;letter 4 5;loft 3;seed 5;";
+        BalloonMail mail = Check.siege(full);
+        for (int round = 0; round < 3; round++) {
+            due("parse of a full siege", Check.parse(mail, full), 0);
+            due("wind() of start", mail.wind(), 2);
+            due("pigeonsInLoft() of loft", mail.pigeonsInLoft(), 3);
+            due("parse with an error", Check.parse(mail, full + full), 2);
+            // the draws from the seed 1 begin with 8 8
+            due("parse", Check.parse(mail, "region 0 1 1;region 0 1 1;wind 1 5 0 4;wind;turn 0 1 8;balloon 1 0;"), 0);
+            due("windCount()", mail.windCount(), 2);
+            due("balloonCount()", mail.balloonCount(), 1);
+            due("letterCount()", mail.letterCount(), 0);
+            due("pigeonsInLoft()", mail.pigeonsInLoft(), 8);
+            due("wind()", mail.wind(), 0);
+            due("windChance(0, 1)", mail.windChance(0, 1), 2);
+            due("landingChance(0, 0)", mail.landingChance(0, 0), 4);
+            due("landingChance(NONE, 0)", mail.landingChance(-2, 0), 1);
+            due("nextDay()", mail.nextDay(), 0);
+            due("launch(0, 0)", mail.launch(0, 0), 3);
+            due("balloonRegion(0)", mail.balloonRegion(0), 0);
+            due("parse", Check.parse(mail, "wind;"), 0);
+            due("regionCount()", mail.regionCount(), 0);
+        }
+    }
+
     private static void errorPosition() {
         BalloonMail mail = new BalloonMail();
         due("errorPosition() before any parse", mail.errorPosition(), -2);
@@ -185,6 +234,10 @@ public final class SiegeTest {
         bad(REGION + ";", 1, 13);
         bad("bird 1;", 1, 0);
         bad("regions 1 1 1;", 1, 0);
+        bad("legion 1 1 1;", 1, 0);
+        bad("boft 1;", 1, 0);
+        bad("lofd 1;", 1, 0);
+        bad("win", 1, 0);
         bad("  regionregion 1 1 1;", 1, 2);
         bad("Region 1 1 1;", 1, 0);
         bad("region\t1 1 1;", 1, 6);
@@ -247,6 +300,7 @@ public final class SiegeTest {
         bad(TWO_WINDS + "turn 0 1;", 1, 18);
         bad(TWO_WINDS + "turn 0 1 5;turn 0 1 5;", 2, 28);
         bad(TWO_WINDS + "turn 0 1 10;turn 0 1 5;", 2, 29);
+        bad(TWO_WINDS + "turn 0 1 1;turn 1 0 1;turn 0 1 1;", 2, 39);
         bad("wind;turn 0 1 5;wind;", 3, 12);
         bad("turn 0 1 5;", 3, 5);
         good("wind;wind;wind;turn 0 1 6;turn 1 2 5;turn 0 2 4;");
