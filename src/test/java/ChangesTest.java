@@ -97,8 +97,10 @@ public final class ChangesTest {
             mail.nextDay();
         }
         mail.nextDay();
-        int[][] due = {{3, 2, 2}, {5, 1, 3}, {5, 0, 4}, {4, 2, 4}, {4, 2, 4}, {3, 1, 4}, {5, 1, 5}, {5, 0, 6},
-            {4, 1, 6}, {4, 1, 6}, {3, 0, 6}, {5, 1, 7}, {5, 0, 8}, {4, 0, 8}, {4, 0, 8}, {5, 1, 9}};
+        mail.nextDay();
+        mail.nextDay();
+        int[][] due = {{5, 0, 4}, {4, 2, 4}, {4, 2, 4}, {3, 1, 4}, {5, 1, 5}, {5, 0, 6}, {4, 1, 6}, {4, 1, 6},
+            {3, 0, 6}, {5, 1, 7}, {5, 0, 8}, {4, 0, 8}, {4, 0, 8}, {5, 1, 9}, {5, 0, 10}, {5, 1, 11}};
         due("eventCount()", mail.eventCount(), 16);
         for (int index = 0; index < 16; index++) {
             dueEvent(mail, index, due[index][0], due[index][1], due[index][2]);
@@ -347,9 +349,9 @@ public final class ChangesTest {
         CHECK.due("restoreSnapshot(1)", mail.restoreSnapshot(1), true);
         mail.launch(0, 0);
         mail.launch(1, 0);
+        mail.nextDay();
+        mail.nextDay();
         mail.launch(2, 0);
-        mail.nextDay();
-        mail.nextDay();
         CHECK.due("restoreSnapshot(0)", mail.restoreSnapshot(0), true);
         due("pigeonsOnTheWay()", mail.pigeonsOnTheWay(), 2);
         due("nextReturn()", mail.nextReturn(), 3);

@@ -42,24 +42,26 @@ final class Check {
         }
     }
 
-    /** Appends a text, filled up with spaces to a multiple of 20 bytes; answers what the last append did. */
-    static int append(BalloonMail mail, byte[] text) {
-        int answer = 0;
-        for (int from = 0; from < text.length; from += 20) {
-            int[] words = new int[5];
-            for (int k = 0; k < 20; k++) {
-                int sign = from + k < text.length ? text[from + k] & 255 : ' ';
-                words[k / 4] = words[k / 4] << 8 | sign;
-            }
-            answer = mail.append(words[0], words[1], words[2], words[3], words[4]);
+    /** The words of the calls of append for a text, filled up with spaces to a multiple of 20 bytes. */
+    static int[][] words(String text) {
+        byte[] bytes = text.getBytes(StandardCharsets.ISO_8859_1);
+        int[][] words = new int[(bytes.length + 19) / 20][5];
+        for (int k = 0; k < words.length * 20; k++) {
+            int sign = k < bytes.length ? bytes[k] & 255 : ' ';
+            words[k / 20][k % 20 / 4] = words[k / 20][k % 20 / 4] << 8 | sign;
         }
-        return answer;
+        return words;
+    }
+
+    static void append(BalloonMail mail, String text) {
+        for (int[] w : words(text)) {
+            mail.append(w[0], w[1], w[2], w[3], w[4]);
+        }
     }
 
     static int parse(BalloonMail mail, String text) {
-        byte[] bytes = text.getBytes(StandardCharsets.ISO_8859_1);
-        append(mail, bytes);
-        return mail.parse(bytes.length);
+        append(mail, text);
+        return mail.parse(text.length());
     }
 
     static BalloonMail siege(String text) {

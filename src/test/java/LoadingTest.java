@@ -54,15 +54,10 @@ public final class LoadingTest {
         for (int k = 0; k < 24; k++) {
             text.append("letter ").append(31 + k * 37 % 67).append(' ').append(1 + k * 5 % 9).append(';');
         }
-        byte[] bytes = text.toString().getBytes();
-        for (int from = 0; from < bytes.length; from += 20) {
-            int[] words = new int[5];
-            for (int k = 0; k < 20; k++) {
-                words[k / 4] = words[k / 4] << 8 | (from + k < bytes.length ? bytes[from + k] : ' ');
-            }
+        for (int[] words : Check.words(text.toString())) {
             model.append(words);
         }
-        due("parse of the model", model.parse(bytes.length), 0);
+        due("parse of the model", model.parse(text.length()), 0);
         due("the best of all 2 to the 24 sets", best(text.toString()), model.bestLoad(0));
     }
 

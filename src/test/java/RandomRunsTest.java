@@ -1,4 +1,3 @@
-import java.nio.charset.StandardCharsets;
 import java.util.Random;
 
 /** Random runs of calls, each answer compared with the one of the model. The seeds are fixed. */
@@ -71,17 +70,12 @@ public final class RandomRunsTest {
     }
 
     private int handIn(String text) {
-        byte[] bytes = text.getBytes(StandardCharsets.ISO_8859_1);
         int calls = 0;
-        for (int from = 0; from < bytes.length; from += 20) {
-            int[] w = new int[5];
-            for (int k = 0; k < 20; k++) {
-                w[k / 4] = w[k / 4] << 8 | (from + k < bytes.length ? bytes[from + k] & 255 : ' ');
-            }
+        for (int[] w : Check.words(text)) {
             due("append", mail.append(w[0], w[1], w[2], w[3], w[4]), model.append(w));
             calls++;
         }
-        int length = bytes.length > 900 ? 900 : bytes.length;
+        int length = Math.min(text.length(), 900);
         due("parse of " + text, mail.parse(length), model.parse(length));
         due("errorPosition of " + text, mail.errorPosition(), model.errorPosition);
         return calls + 2;

@@ -93,7 +93,7 @@ public final class SiegeTest {
 
     private static void parseAndItsBuffer() {
         BalloonMail mail = new BalloonMail();
-        Check.append(mail, "wind;balloon 5 1;lett".getBytes());
+        Check.append(mail, "wind;balloon 5 1;lett");
         due("parse(-1)", mail.parse(-1), -1);
         due("parse(41)", mail.parse(41), -1);
         due("parse(Integer.MAX_VALUE)", mail.parse(Integer.MAX_VALUE), -1);
@@ -103,10 +103,10 @@ public final class SiegeTest {
         due("windCount()", mail.windCount(), 1);
         due("balloonCount()", mail.balloonCount(), 1);
         due("parse(1), the buffer is empty after a success", mail.parse(1), -1);
-        Check.append(mail, "wind".getBytes());
+        Check.append(mail, "wind");
         due("parse(4)", mail.parse(4), 1);
         due("parse(1), the buffer is empty after an error", mail.parse(1), -1);
-        Check.append(mail, "wind;wind;".getBytes());
+        Check.append(mail, "wind;wind;");
         due("parse(0)", mail.parse(0), 0);
         due("windCount() of the empty siege", mail.windCount(), 0);
         due("parse(10), the buffer is empty after parse(0)", mail.parse(10), -1);
