@@ -1,4 +1,5 @@
 import java.nio.charset.StandardCharsets;
+import java.util.List;
 
 /** What the tests share: comparing answers with what is due, and handing in siege texts. */
 final class Check {
@@ -20,6 +21,40 @@ final class Check {
 
     void due(String call, boolean got, boolean want) {
         due(call, got ? 1 : 0, want ? 1 : 0);
+    }
+
+    /** Texts of lines: the first line that differs is told. */
+    void dueText(String what, String got, String want) {
+        done++;
+        if (!got.equals(want)) {
+            wrong++;
+            int line = 0;
+            List<String> gotLines = got.lines().toList();
+            List<String> wantLines = want.lines().toList();
+            while (line < gotLines.size() && line < wantLines.size() && gotLines.get(line).equals(wantLines.get(line))) {
+                line++;
+            }
+            System.out.println(name + ": " + what + " line " + line + " is " + lineOf(gotLines, line)
+                    + ", due is " + lineOf(wantLines, line));
+        }
+    }
+
+    private static String lineOf(List<String> lines, int line) {
+        return line < lines.size() ? lines.get(line) : "missing";
+    }
+
+    /** A text that is a siege. */
+    void good(String text) {
+        BalloonMail mail = new BalloonMail();
+        due("parse of '" + text + "'", parse(mail, text), 0);
+        due("errorPosition of '" + text + "'", mail.errorPosition(), BalloonMail.NONE);
+    }
+
+    /** A text with an error. */
+    void bad(String text, int code, int position) {
+        BalloonMail mail = new BalloonMail();
+        due("parse of '" + text + "'", parse(mail, text), code);
+        due("errorPosition of '" + text + "'", mail.errorPosition(), position);
     }
 
     void dueThrows(String call, Runnable run) {

@@ -32,15 +32,11 @@ public final class SiegeTest {
     }
 
     private static void good(String text) {
-        BalloonMail mail = new BalloonMail();
-        due("parse of '" + text + "'", Check.parse(mail, text), 0);
-        due("errorPosition of '" + text + "'", mail.errorPosition(), -2);
+        CHECK.good(text);
     }
 
     private static void bad(String text, int code, int position) {
-        BalloonMail mail = new BalloonMail();
-        due("parse of '" + text + "'", Check.parse(mail, text), code);
-        due("errorPosition of '" + text + "'", mail.errorPosition(), position);
+        CHECK.bad(text, code, position);
     }
 
     private static void newObject() {
