@@ -34,7 +34,8 @@ public final class ChanceBoundsTest {
         }
     }
 
-    @Says(in = "WINDS", value = "A balloon that is launched in a wind comes down in a region with the chance (in tenths) "
+    @Says(in = "WINDS",
+            value = "A balloon that is launched in a wind comes down in a region with the chance (in tenths) "
             + "that the wind's statement gives to this region, and with the rest of 10 in the sea.")
     static void restOfTheRegions(Check check) {
         for (int weight = 1; weight <= 10; weight++) {
@@ -212,7 +213,8 @@ public final class ChanceBoundsTest {
         Bounds.never(check, "answerPermille without winds", pigeons -> none.answerPermille(pigeons, 0));
     }
 
-    @Says(in = "Promise 17", value = {"Returns the number of days, 0 to 8, after which a balloon has the greatest chance "
+    @Says(in = "Promise 17",
+            value = {"Returns the number of days, 0 to 8, after which a balloon has the greatest chance "
         + "that its letters are answered.", "Ties go to the smallest number.",
         "- `pigeons`: number of pigeons in the balloon, 0 to 4",
         "Returns the number of days; INVALID if pigeons is out of range or there are no winds."})
@@ -230,7 +232,8 @@ public final class ChanceBoundsTest {
         check.due("bestDay(1), one millionth more on the last day", littleMore.bestDay(1), 8);
         BalloonMail littleLess = Check.siege("region 0 1 1;" + five + "wind 0 4;" + CHAIN);
         check.due("bestDay(1), ties on the days 0 to 4", littleLess.bestDay(1), 0);
-        BalloonMail peak = Check.siege("region 0 1 1;wind;wind;wind 0 10;wind;turn 0 1 10;turn 1 2 10;turn 2 3 10;turn 3 0 10;");
+        BalloonMail peak = Check.siege("region 0 1 1;wind;wind;wind 0 10;wind;"
+                + "turn 0 1 10;turn 1 2 10;turn 2 3 10;turn 3 0 10;");
         check.due("bestDay(4), ties on the days 2 and 6", peak.bestDay(4), 2);
         Bounds.never(check, "bestDay without winds", noWinds()::bestDay);
     }
@@ -244,7 +247,8 @@ public final class ChanceBoundsTest {
         }
     }
 
-    @Says(in = "ASSIGNMENT", value = "An assignment lets some of the ready balloons fly on some of the days 0 to 8 from now, "
+    @Says(in = "ASSIGNMENT",
+            value = "An assignment lets some of the ready balloons fly on some of the days 0 to 8 from now, "
             + "at most one balloon on each day and each balloon at most once.")
     static void oneBalloonADay(Check check) {
         BalloonMail one = Check.siege(GOOD + "balloon 999 4;");
@@ -276,7 +280,8 @@ public final class ChanceBoundsTest {
         check.due("the least chance counts", rare.assignmentTotal(), 43_165L * 1000);
     }
 
-    @Says(in = "ASSIGNMENT", value = "The best assignment has the greatest total; among several, the one whose sequence "
+    @Says(in = "ASSIGNMENT",
+            value = "The best assignment has the greatest total; among several, the one whose sequence "
             + "of days, by ascending number of the balloons that are ready, comes first lexicographically, "
             + "where a balloon that does not fly counts as day 9.")
     static void firstOfTheBest(Check check) {
@@ -287,7 +292,7 @@ public final class ChanceBoundsTest {
         BalloonMail last = Check.siege(GOOD + "balloon 2 1;".repeat(9) + "balloon 3 1;");
         dueDays(check, "not to fly as late as can be", last, 0, 1, 2, 3, 4, 5, 6, 7, -2, 8);
         String turning = "region 0 1 10;wind;wind 0 10;turn 0 1 10;turn 1 0 10;";
-        BalloonMail free = Check.siege(turning + "balloon 9 0;balloon 9 1;balloon 9 1;balloon 9 1;balloon 9 1;balloon 9 0;");
+        BalloonMail free = Check.siege(turning + "balloon 9 0;" + "balloon 9 1;".repeat(4) + "balloon 9 0;");
         dueDays(check, "those without gain take the first free days", free, 0, 1, 3, 5, 7, 2);
         BalloonMail five = Check.siege(turning + "balloon 9 1;".repeat(5));
         dueDays(check, "the first balloon takes day 0", five, 0, 1, 3, 5, 7);
@@ -313,10 +318,13 @@ public final class ChanceBoundsTest {
         BalloonMail greatest = Check.siege(GOOD + "balloon 999 4;".repeat(10));
         check.due("the greatest total", greatest.assignmentTotal(), 9 * 999 * CERTAIN_TOTAL);
         BalloonMail mail = Check.siege(GOOD + "balloon 3 1;");
+        check.due("with a ready balloon", mail.assignmentTotal(), 3 * CERTAIN_TOTAL);
         mail.launch(0, 0);
         check.due("without a ready balloon", mail.assignmentTotal(), 0);
         mail.undo();
         check.due("after undo", mail.assignmentTotal(), 3 * CERTAIN_TOTAL);
+        check.due("a siege with another balloon", Check.parse(mail, GOOD + "balloon 5 1;"), 0);
+        check.due("with the other balloon", mail.assignmentTotal(), 5 * CERTAIN_TOTAL);
         mail.parse(0);
         check.due("after the winds are gone", mail.assignmentTotal(), -1);
     }

@@ -4,7 +4,8 @@ import java.util.function.Consumer;
 public final class ChangeBoundsTest {
     /** The wind changes every day, between 0 and 1. */
     private static final String RESTLESS = "region 0 2 10;wind 0 10;wind;turn 0 1 10;turn 1 0 10;";
-    private static final String LOADED = RESTLESS + "balloon 9 2;balloon 9 1;balloon 9 0;letter 2 3;letter 4 5;seed 12;";
+    private static final String LOADED = RESTLESS
+            + "balloon 9 2;balloon 9 1;balloon 9 0;letter 2 3;letter 4 5;seed 12;";
     private static final int LATEST_CHANGES = 12;
     private static final int LATEST_EVENTS = 16;
 
@@ -59,7 +60,8 @@ public final class ChangeBoundsTest {
         dueEvent(check, crowd, 8, 3, 8, 0);
     }
 
-    @Says(in = "JOURNAL", value = "Its events are: kind 1, 2 or 3, a balloon got this state, with the number of the balloon; "
+    @Says(in = "JOURNAL",
+            value = "Its events are: kind 1, 2 or 3, a balloon got this state, with the number of the balloon; "
             + "kind 4, a pigeon came back, with the number of its balloon; "
             + "kind 5, the wind has changed to a different one, with the number of the new wind.")
     static void kindsOfEvents(Check check) {
@@ -134,14 +136,16 @@ public final class ChangeBoundsTest {
         indexes(check, "eventKind", BalloonMail::eventKind);
     }
 
-    @Says(in = "Promise 42", value = {"Returns the number that an event of the journal has: of a balloon, or of a wind for kind 5.",
+    @Says(in = "Promise 42",
+            value = {"Returns the number that an event of the journal has: of a balloon, or of a wind for kind 5.",
         "- `index`: index of the event, from 0 for the oldest one", "Returns the number.",
         "Throws `IndexOutOfBoundsException` if there is no such event"})
     static void eventNumbers(Check check) {
         indexes(check, "eventNumber", BalloonMail::eventNumber);
     }
 
-    @Says(in = "Promise 43", value = {"Returns the day of an event of the journal.", "For the kinds 4 and 5 this is the new day.",
+    @Says(in = "Promise 43",
+            value = {"Returns the day of an event of the journal.", "For the kinds 4 and 5 this is the new day.",
         "- `index`: index of the event, from 0 for the oldest one", "Returns the day.",
         "Throws `IndexOutOfBoundsException` if there is no such event"})
     static void eventDays(Check check) {
@@ -181,7 +185,8 @@ public final class ChangeBoundsTest {
         check.due("undoDepth() after a day without winds", calm.undoDepth(), 1);
     }
 
-    @Says(in = "CHANGES", value = "The latest 12 changes can be undone, the latest first; the state x is then as before, too.")
+    @Says(in = "CHANGES",
+            value = "The latest 12 changes can be undone, the latest first; the state x is then as before, too.")
     static void latestChanges(Check check) {
         int[] days = {11, 12, 13, 24, 25, 40};
         for (int passed : days) {
@@ -204,7 +209,8 @@ public final class ChangeBoundsTest {
         }
     }
 
-    @Says(in = "Promise 44", value = {"Undoes the latest change that has not been undone.", "Returns true; false if there is none."})
+    @Says(in = "Promise 44",
+            value = {"Undoes the latest change that has not been undone.", "Returns true; false if there is none."})
     static void undos(Check check) {
         check.due("undo() of a new object", new BalloonMail().undo(), false);
         View.dueUnchanged(check, "undo() without a change", () -> Check.siege(LOADED), BalloonMail::undo);
@@ -260,7 +266,8 @@ public final class ChangeBoundsTest {
 
     // ---- snapshots
 
-    @Says(in = "CHANGES", value = "There are two snapshot slots, 0 and 1; a snapshot holds the day, the wind, the state x, "
+    @Says(in = "CHANGES",
+            value = "There are two snapshot slots, 0 and 1; a snapshot holds the day, the wind, the state x, "
             + "all states and totals, the loft, the pigeons on their way and the journal.")
     static void whatASnapshotHolds(Check check) {
         for (int slot = 0; slot <= 1; slot++) {
@@ -281,15 +288,34 @@ public final class ChangeBoundsTest {
                 check.due("restoreSnapshot(" + used + ")", mail.restoreSnapshot(used), true);
             });
         }
-        BalloonMail both = Check.siege(RESTLESS);
-        both.saveSnapshot(0);
-        both.nextDay();
-        both.saveSnapshot(1);
-        both.nextDay();
-        both.restoreSnapshot(0);
-        check.due("day() of slot 0", both.day(), 0);
-        both.restoreSnapshot(1);
-        check.due("day() of slot 1", both.day(), 1);
+        twoSnapshots(check);
+    }
+
+    /** In slot 0 balloon 1 flew before balloon 0, in slot 1 after it and two days later. */
+    private static void twoSnapshots(Check check) {
+        BalloonMail mail = Check.siege(LOADED);
+        mail.launch(1, 0);
+        mail.launch(0, 0);
+        mail.saveSnapshot(0);
+        mail.undo();
+        mail.undo();
+        passDays(mail, 2);
+        mail.launch(0, 0);
+        mail.launch(1, 0);
+        mail.saveSnapshot(1);
+        passDays(mail, 3);
+        for (int round = 0; round < 2; round++) {
+            mail.restoreSnapshot(0);
+            check.due("nextReturn() of slot 0", mail.nextReturn(), 2);
+            passDays(mail, 2);
+            dueEvent(check, mail, 4, 4, 1, 2);
+            dueEvent(check, mail, 5, 4, 0, 2);
+            mail.restoreSnapshot(1);
+            check.due("nextReturn() of slot 1", mail.nextReturn(), 4);
+            passDays(mail, 2);
+            dueEvent(check, mail, 6, 4, 0, 4);
+            dueEvent(check, mail, 8, 4, 1, 4);
+        }
     }
 
     @Says(in = "CHANGES", value = "A successful parse sets the day to 0, restores all initial values, "
@@ -369,7 +395,8 @@ public final class ChangeBoundsTest {
         check.due("undo() of a change before it", mail.undo(), false);
     }
 
-    @Says(in = "Promise 47", value = "Returns true; false, with nothing changed, if there is no such slot or it is empty.")
+    @Says(in = "Promise 47",
+            value = "Returns true; false, with nothing changed, if there is no such slot or it is empty.")
     static void refusedRestores(Check check) {
         int[] wrong = {-1, -2, 1, 2, 3, Integer.MIN_VALUE, Integer.MAX_VALUE};
         for (int slot : wrong) {

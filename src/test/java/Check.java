@@ -31,7 +31,7 @@ final class Check {
             int line = 0;
             List<String> gotLines = got.lines().toList();
             List<String> wantLines = want.lines().toList();
-            while (line < gotLines.size() && line < wantLines.size() && gotLines.get(line).equals(wantLines.get(line))) {
+            while (lineOf(gotLines, line).equals(lineOf(wantLines, line)) && line < gotLines.size()) {
                 line++;
             }
             System.out.println(name + ": " + what + " line " + line + " is " + lineOf(gotLines, line)

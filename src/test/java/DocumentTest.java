@@ -12,8 +12,9 @@ import java.util.regex.Pattern;
 /** Every sentence of the document's description and promises belongs to a test of boundaries that quotes it. */
 public final class DocumentTest {
     private static final Path DOCUMENT = Path.of("../shared/DOC.md");
-    private static final List<Class<?>> TESTS = List.of(TextBoundsTest.class, SiegeBoundsTest.class, ChanceBoundsTest.class,
-            LoadBoundsTest.class, FlightBoundsTest.class, PigeonBoundsTest.class, ChangeBoundsTest.class);
+    private static final List<Class<?>> TESTS = List.of(TextBoundsTest.class, SiegeBoundsTest.class,
+            ChanceBoundsTest.class, LoadBoundsTest.class, FlightBoundsTest.class, PigeonBoundsTest.class,
+            ChangeBoundsTest.class);
     private static final int PROMISES = 47;
     /** A part begins with its name in capitals, or with the heading of a promise. */
     private static final Pattern PART = Pattern.compile("(?m)^(?:([A-Z][A-Z ]+)\\. |## (Promise \\d+): .*$)");
@@ -23,7 +24,8 @@ public final class DocumentTest {
     public static void main(String[] args) throws IOException {
         Check check = new Check("DocumentTest");
         Map<String, String> parts = parts(Files.readString(DOCUMENT));
-        check.due("promises in the document", parts.keySet().stream().filter(it -> it.startsWith("Promise")).count(), PROMISES);
+        long promises = parts.keySet().stream().filter(name -> name.startsWith("Promise")).count();
+        check.due("promises in the document", promises, PROMISES);
         for (Class<?> type : TESTS) {
             for (Method test : Bounds.tests(type)) {
                 strike(check, test, parts);

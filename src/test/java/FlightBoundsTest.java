@@ -26,22 +26,26 @@ public final class FlightBoundsTest {
         }
     }
 
-    @Says(in = "DRAWS", value = "To choose by weights with a draw g means: the weights are passed through in the order of "
+    @Says(in = "DRAWS",
+            value = "To choose by weights with a draw g means: the weights are passed through in the order of "
             + "their declaration, and each is subtracted from g until g is less than a weight, which is chosen; "
             + "if none is, the rest is chosen.")
     static void choices(Check check) {
         int[] winds = {2, 2, 1, 1, 1, 3, 0, 0, 0, 0};
         int[] regions = {1, 1, 1, 0, 2, 2, 2, 2, -2, -2};
         for (int draw = 0; draw <= 9; draw++) {
-            BalloonMail mail = Check.siege("wind;".repeat(4) + "turn 0 2 2;turn 1 3 9;turn 0 1 3;turn 0 3 1;" + Bounds.seed(draw));
+            BalloonMail mail = Check.siege("wind;".repeat(4) + "turn 0 2 2;turn 1 3 9;turn 0 1 3;turn 0 3 1;"
+                    + Bounds.seed(draw));
             check.due("nextDay() with the draw " + draw, mail.nextDay(), winds[draw]);
-            mail = Check.siege("region 0 1 0;".repeat(3) + "wind 1 3 0 1 2 4;wind 0 10;balloon 1 0;" + Bounds.seed(draw));
+            mail = Check.siege("region 0 1 0;".repeat(3) + "wind 1 3 0 1 2 4;wind 0 10;balloon 1 0;"
+                    + Bounds.seed(draw));
             mail.launch(0, 0);
             check.due("balloonRegion(0) with the draw " + draw, mail.balloonRegion(0), regions[draw]);
         }
     }
 
-    @Says(in = "DRAWS", value = "nextDay draws once and chooses the next wind by the weights of the turns from the present "
+    @Says(in = "DRAWS",
+            value = "nextDay draws once and chooses the next wind by the weights of the turns from the present "
             + "wind (the rest: the wind stays).")
     static void drawsOfDays(Check check) {
         for (int weight = 1; weight <= 10; weight++) {
@@ -56,7 +60,8 @@ public final class FlightBoundsTest {
         check.due("launch(0, 0)", mail.launch(0, 0), 1);
     }
 
-    @Says(in = "DRAWS", value = "launch draws once and chooses the region by the weights of the present wind (the rest: the sea).")
+    @Says(in = "DRAWS",
+            value = "launch draws once and chooses the region by the weights of the present wind (the rest: the sea).")
     static void drawsOfRegions(Check check) {
         for (int weight = 1; weight <= 10; weight++) {
             for (int draw = 0; draw <= 9; draw++) {
@@ -70,7 +75,8 @@ public final class FlightBoundsTest {
         check.due("nextDay() with the second draw", mail.nextDay(), 1);
     }
 
-    @Says(in = "DRAWS", value = "If a region is chosen, launch draws once more, and the balloon is captured if the draw is less than risk.")
+    @Says(in = "DRAWS",
+            value = "If a region is chosen, launch draws once more, and the balloon is captured if the draw is less than risk.")
     static void drawsOfCaptures(Check check) {
         for (int risk = 0; risk <= 10; risk++) {
             for (int draw = 0; draw <= 9; draw++) {
@@ -84,7 +90,8 @@ public final class FlightBoundsTest {
         check.due("nextDay() with the third draw", mail.nextDay(), 1);
     }
 
-    @Says(in = "DRAWS", value = "Otherwise it draws once for each pigeon, which comes back if the draw is less than return.")
+    @Says(in = "DRAWS",
+            value = "Otherwise it draws once for each pigeon, which comes back if the draw is less than return.")
     static void drawsOfPigeons(Check check) {
         for (int comeback = 0; comeback <= 10; comeback++) {
             for (int pigeons = 0; pigeons <= 4; pigeons++) {
@@ -111,7 +118,8 @@ public final class FlightBoundsTest {
 
     // ---- balloons and pigeons
 
-    @Says(in = "BALLOONS AND PIGEONS", value = "A balloon that comes down in a region is captured with the chance risk (in tenths) of that region.")
+    @Says(in = "BALLOONS AND PIGEONS",
+            value = "A balloon that comes down in a region is captured with the chance risk (in tenths) of that region.")
     static void risks(Check check) {
         for (int seed = 0; seed < 40; seed++) {
             BalloonMail mail = Check.siege("region 0 1 0;region 10 1 10;wind 0 10;wind 1 10;turn 0 1 10;"
@@ -122,7 +130,8 @@ public final class FlightBoundsTest {
         }
     }
 
-    @Says(in = "BALLOONS AND PIGEONS", value = "Otherwise it has landed, its letters are delivered, and each of its pigeons "
+    @Says(in = "BALLOONS AND PIGEONS",
+            value = "Otherwise it has landed, its letters are delivered, and each of its pigeons "
             + "is released with answers to all of these letters.")
     static void deliveries(Check check) {
         BalloonMail mail = Check.siege(GOOD + "balloon 9 0;balloon 9 4;letter 1 1;letter 1 1;letter 1 1;");
@@ -167,7 +176,8 @@ public final class FlightBoundsTest {
         check.due("letterState(0) with return 0", never.letterState(0), 2);
     }
 
-    @Says(in = "BALLOONS AND PIGEONS", value = "The pigeons of a balloon are taken out of the loft when it is launched, "
+    @Says(in = "BALLOONS AND PIGEONS",
+            value = "The pigeons of a balloon are taken out of the loft when it is launched, "
             + "and a pigeon that comes back is in the loft again.")
     static void loft(Check check) {
         BalloonMail mail = Check.siege("region 0 1 10;wind 0 10;balloon 1 4;balloon 1 4;loft 4;");
@@ -180,9 +190,11 @@ public final class FlightBoundsTest {
         check.due("pigeonsInLoft()", mail.pigeonsInLoft(), 0);
     }
 
-    @Says(in = "BALLOONS AND PIGEONS", value = "The pigeons of a balloon that is captured or falls into the sea are lost.")
+    @Says(in = "BALLOONS AND PIGEONS",
+            value = "The pigeons of a balloon that is captured or falls into the sea are lost.")
     static void lostPigeons(Check check) {
-        BalloonMail mail = Check.siege("region 10 1 10;wind 0 10;wind;turn 0 1 10;balloon 1 4;balloon 1 3;balloon 1 0;");
+        BalloonMail mail = Check.siege("region 10 1 10;wind 0 10;wind;turn 0 1 10;"
+                + "balloon 1 4;balloon 1 3;balloon 1 0;");
         check.due("launch(0, 0)", mail.launch(0, 0), 2);
         check.due("pigeonsLost() after a capture", mail.pigeonsLost(), 4);
         check.due("pigeonsOnTheWay()", mail.pigeonsOnTheWay(), 0);
@@ -195,7 +207,8 @@ public final class FlightBoundsTest {
         check.due("nextReturn()", mail.nextReturn(), -2);
     }
 
-    @Says(in = "BALLOONS AND PIGEONS", value = "The first pigeon of a balloon that comes back makes all its letters answered.")
+    @Says(in = "BALLOONS AND PIGEONS",
+            value = "The first pigeon of a balloon that comes back makes all its letters answered.")
     static void firstPigeon(Check check) {
         for (int back = 0; back <= 1; back++) {
             // of two pigeons none or the second one comes back
@@ -280,7 +293,8 @@ public final class FlightBoundsTest {
 
     /** Balloon 0 has been launched with letter 0; of 3 pigeons 1 is left for balloon 1, which needs 2. */
     private static BalloonMail afterOneLaunch() {
-        BalloonMail mail = Check.siege(GOOD + "balloon 9 2;balloon 9 2;balloon 9 1;letter 4 1;letter 9 1;letter 1 1;loft 3;");
+        BalloonMail mail = Check.siege(GOOD + "balloon 9 2;balloon 9 2;balloon 9 1;"
+                + "letter 4 1;letter 9 1;letter 1 1;loft 3;");
         mail.launch(0, 1);
         return mail;
     }
@@ -306,7 +320,8 @@ public final class FlightBoundsTest {
         check.due("launch(1, 0) in wind 1", turned.launch(1, 0), 3);
     }
 
-    @Says(in = "Promise 26", value = {"- `balloon`: the balloon", "- `letters`: the letters that it carries, possibly none"})
+    @Says(in = "Promise 26",
+            value = {"- `balloon`: the balloon", "- `letters`: the letters that it carries, possibly none"})
     static void lettersOfLaunches(Check check) {
         BalloonMail mail = Check.siege(GOOD + "balloon 999 0;".repeat(3) + "letter 1 1;".repeat(24));
         check.due("launch without letters", mail.launch(0, 0), 3);
@@ -320,8 +335,10 @@ public final class FlightBoundsTest {
         check.due("launch of a siege without letters", none.launch(0, 0), 3);
     }
 
-    @Says(in = "Promise 26", value = "Returns the new state of the balloon, 1 to 3. Otherwise nothing changes, and the result is "
-            + "the first of these that applies: INVALID if there is no such balloon, or letters contains a letter that does not exist; "
+    @Says(in = "Promise 26",
+            value = "Returns the new state of the balloon, 1 to 3. Otherwise nothing changes, and the result is "
+            + "the first of these that applies: "
+            + "INVALID if there is no such balloon, or letters contains a letter that does not exist; "
             + "NONE if the balloon is not ready, one of the letters is not waiting, or there are no winds; "
             + "TOO_HEAVY if the total weight is greater than the capacity; "
             + "NO_PIGEONS if the loft has fewer pigeons than the balloon needs.")
@@ -371,8 +388,9 @@ public final class FlightBoundsTest {
         Supplier<BalloonMail> calm = () -> Check.siege("region 0 1 1;balloon 5 1;letter 9 9;loft 0;");
         int[][] calls = {{0, 0, -2}, {0, 1, -2}, {0, 2, -1}, {1, 0, -1}, {-1, 0, -1}};
         for (int[] call : calls) {
-            check.due("launch(" + call[0] + ", " + call[1] + ") without winds", calm.get().launch(call[0], call[1]), call[2]);
-            View.dueUnchanged(check, "launch without winds", calm, mail -> mail.launch(call[0], call[1]));
+            String name = "launch(" + call[0] + ", " + call[1] + ") without winds";
+            check.due(name, calm.get().launch(call[0], call[1]), call[2]);
+            View.dueUnchanged(check, name, calm, mail -> mail.launch(call[0], call[1]));
         }
     }
 
@@ -426,7 +444,8 @@ public final class FlightBoundsTest {
     @Says(in = "Promise 29", value = {"Returns the region in which a balloon came down.",
         "Returns the region; NONE if it is ready or in the sea; INVALID if there is no such balloon."})
     static void balloonRegions(Check check) {
-        BalloonMail mail = Check.siege("region 10 1 1;".repeat(7) + "region 0 1 1;wind;wind 0 10;wind 7 10;turn 0 1 10;turn 1 2 10;"
+        BalloonMail mail = Check.siege("region 10 1 1;".repeat(7) + "region 0 1 1;"
+                + "wind;wind 0 10;wind 7 10;turn 0 1 10;turn 1 2 10;"
                 + "balloon 9 0;".repeat(10));
         Bounds.within(check, "balloonRegion", 0, 9, mail::balloonRegion);
         int[] regions = {-2, 0, 7};
@@ -463,7 +482,8 @@ public final class FlightBoundsTest {
         Bounds.never(check, "cargo of none", Check.siege(GOOD)::cargo);
     }
 
-    @Says(in = "Promise 31", value = {"Returns the state of a letter.", "Returns 0 to 3; INVALID if there is no such letter."})
+    @Says(in = "Promise 31",
+            value = {"Returns the state of a letter.", "Returns 0 to 3; INVALID if there is no such letter."})
     static void letterStates(Check check) {
         BalloonMail mail = Check.siege("region 0 1 10;wind 0 10;balloon 9 1;balloon 9 1;" + "letter 1 1;".repeat(24));
         Bounds.within(check, "letterState", 0, 23, mail::letterState);

@@ -1,4 +1,5 @@
 import java.util.function.IntToLongFunction;
+import java.util.function.ToIntBiFunction;
 
 /** The boundaries of promises 20 to 23: the best load and sets of letters. */
 public final class LoadBoundsTest {
@@ -21,9 +22,10 @@ public final class LoadBoundsTest {
         check.due("the least of both", best("balloon 1 0;letter 1 1;"), 1);
         check.due("two letters of just the capacity", best("balloon 9 0;letter 4 1;letter 5 1;"), 3);
         check.due("two letters of one more", best("balloon 8 0;letter 4 1;letter 5 1;"), 1);
-        check.due("the greatest capacity, just filled", best("balloon 999 0;" + "letter 99 9;".repeat(10) + "letter 9 1;"), 2047);
-        check.due("the greatest capacity, one more", best("balloon 999 0;" + "letter 99 9;".repeat(10) + "letter 10 1;"), 1023);
-        check.due("all 24 letters", best("balloon 999 0;" + "letter 41 1;".repeat(24)), ALL_LETTERS);
+        String heavy = "balloon 999 0;" + "letter 99 9;".repeat(10);
+        check.due("the greatest capacity, just filled", best(heavy + "letter 9 1;"), 2047);
+        check.due("the greatest capacity, one more", best(heavy + "letter 10 1;"), 1023);
+        check.due("all 24 letters", best("balloon 999 0;" + "letter 41 9;".repeat(24)), ALL_LETTERS);
         check.due("23 of 24 letters", best("balloon 999 0;" + "letter 41 1;".repeat(23) + "letter 57 1;"), 0x7fffff);
         BalloonMail mail = Check.siege(GOOD + "balloon 9 1;balloon 9 1;letter 9 9;letter 9 1;");
         mail.launch(0, 1);
@@ -56,7 +58,8 @@ public final class LoadBoundsTest {
     }
 
     @Says(in = "Promise 20", value = {"Returns the best load of a balloon.",
-        "Returns the set of letters, possibly empty; NONE if the balloon is not ready; INVALID if there is no such balloon."})
+        "Returns the set of letters, possibly empty; NONE if the balloon is not ready; "
+            + "INVALID if there is no such balloon."})
     static void bestLoads(Check check) {
         BalloonMail ten = Check.siege("balloon 9 0;".repeat(9) + "balloon 1 0;letter 9 9;letter 1 1;");
         Bounds.within(check, "bestLoad", 0, 9, ten::bestLoad);
@@ -106,30 +109,33 @@ public final class LoadBoundsTest {
         check.due("lettersIn(0)", mail.lettersIn(0), ALL_LETTERS);
     }
 
+    /** The statement is one of a letter for which the total is the greatest. */
+    private static void totals(Check check, String name, String statement, int greatest,
+            ToIntBiFunction<BalloonMail, Integer> total) {
+        int[] numbers = {1, 7, 24};
+        for (int letters : numbers) {
+            BalloonMail mail = Check.siege(statement.repeat(letters));
+            sets(check, name, letters, set -> total.applyAsInt(mail, set));
+            check.due(name + " of the empty set", total.applyAsInt(mail, 0), 0);
+            check.due(name + " of all " + letters, total.applyAsInt(mail, (1 << letters) - 1), letters * greatest);
+        }
+        BalloonMail none = new BalloonMail();
+        check.due(name + " of the empty set in the empty siege", total.applyAsInt(none, 0), 0);
+        for (int bit = 0; bit < 32; bit++) {
+            check.due(name + " of letter " + bit + " in the empty siege", total.applyAsInt(none, 1 << bit), -1);
+        }
+    }
+
     @Says(in = "Promise 21", value = {"Returns the total weight of a set of letters.",
         "Returns the weight; INVALID if the set contains a letter that does not exist."})
     static void weights(Check check) {
-        sets(check, "weightOf", 1, Check.siege("letter 5 1;")::weightOf);
-        sets(check, "weightOf", 7, Check.siege("letter 5 1;".repeat(7))::weightOf);
-        BalloonMail full = Check.siege("letter 99 1;".repeat(24));
-        sets(check, "weightOf", 24, full::weightOf);
-        check.due("the greatest weight", full.weightOf(ALL_LETTERS), 2376);
-        check.due("the empty set", full.weightOf(0), 0);
-        check.due("the empty set of the empty siege", new BalloonMail().weightOf(0), 0);
-        check.due("a set of the empty siege", new BalloonMail().weightOf(1), -1);
+        totals(check, "weightOf", "letter 99 1;", 99, BalloonMail::weightOf);
     }
 
     @Says(in = "Promise 22", value = {"Returns the total priority of a set of letters.",
         "Returns the priority; INVALID if the set contains a letter that does not exist."})
     static void priorities(Check check) {
-        sets(check, "priorityOf", 1, Check.siege("letter 5 1;")::priorityOf);
-        sets(check, "priorityOf", 7, Check.siege("letter 5 1;".repeat(7))::priorityOf);
-        BalloonMail full = Check.siege("letter 1 9;".repeat(24));
-        sets(check, "priorityOf", 24, full::priorityOf);
-        check.due("the greatest priority", full.priorityOf(ALL_LETTERS), 216);
-        check.due("the empty set", full.priorityOf(0), 0);
-        check.due("the empty set of the empty siege", new BalloonMail().priorityOf(0), 0);
-        check.due("a set of the empty siege", new BalloonMail().priorityOf(1), -1);
+        totals(check, "priorityOf", "letter 1 9;", 9, BalloonMail::priorityOf);
     }
 
     @Says(in = "Promise 23", value = {"Returns the letters in a given state.", "- `state`: 0 to 3",

@@ -1,8 +1,8 @@
 /** The boundaries of promises 33 to 39: the pigeons and the totals. */
 public final class PigeonBoundsTest {
-    /** Wind 0 leads to the sea, 1 to capture, 2 to a region nine days away, 3 to one a day away; each turns to the next. */
-    private static final String FOUR_WAYS = "region 10 1 10;region 0 9 10;region 0 1 10;wind;wind 0 10;wind 1 10;wind 2 10;"
-            + "turn 0 1 10;turn 1 2 10;turn 2 3 10;";
+    /** Wind 0 leads to the sea, 1 to capture, 2 to a region nine days away, 3 to one a day away, one after another. */
+    private static final String FOUR_WAYS = "region 10 1 10;region 0 9 10;region 0 1 10;"
+            + "wind;wind 0 10;wind 1 10;wind 2 10;turn 0 1 10;turn 1 2 10;turn 2 3 10;";
 
     public static void main(String[] args) throws ReflectiveOperationException {
         Bounds.run(PigeonBoundsTest.class);
@@ -10,8 +10,8 @@ public final class PigeonBoundsTest {
 
     /** Four balloons of four pigeons are launched, each in another wind: lost, captured, far away, back on day 4. */
     private static BalloonMail fourLaunches() {
-        BalloonMail mail = Check.siege(FOUR_WAYS + "balloon 9 4;".repeat(5) + "letter 1 9;letter 2 8;letter 4 7;letter 8 6;letter 16 5;"
-                + "loft 16;");
+        BalloonMail mail = Check.siege(FOUR_WAYS + "balloon 9 4;".repeat(5) + "loft 16;"
+                + "letter 1 9;letter 2 8;letter 4 7;letter 8 6;letter 16 5;");
         for (int balloon = 0; balloon < 4; balloon++) {
             mail.launch(balloon, 1 << balloon);
             if (balloon < 3) {
@@ -62,7 +62,8 @@ public final class PigeonBoundsTest {
         check.due("those that will not come back", lost.pigeonsOnTheWay(), 0);
     }
 
-    @Says(in = "Promise 35", value = "Returns the number of pigeons that are lost, counted as soon as their loss was drawn "
+    @Says(in = "Promise 35",
+            value = "Returns the number of pigeons that are lost, counted as soon as their loss was drawn "
             + "or their balloon was captured or fell into the sea.")
     static void lost(Check check) {
         check.due("pigeonsLost() of a new object", new BalloonMail().pigeonsLost(), 0);
@@ -102,6 +103,15 @@ public final class PigeonBoundsTest {
         }
         mail.nextDay();
         check.due("nextReturn() after the last return", mail.nextReturn(), -2);
+        BalloonMail last = Check.siege("region 0 9 10;region 0 2 10;wind 0 10;wind 1 10;turn 0 1 10;"
+                + "balloon 1 1;".repeat(10) + "loft 10;");
+        for (int balloon = 0; balloon < 9; balloon++) {
+            last.launch(balloon, 0);
+            check.due("nextReturn() of " + (balloon + 1), last.nextReturn(), 9);
+        }
+        last.nextDay();
+        last.launch(9, 0);
+        check.due("nextReturn() of the tenth balloon", last.nextReturn(), 3);
         BalloonMail none = Check.siege("region 0 1 0;wind 0 10;wind;turn 0 1 10;balloon 1 4;balloon 1 4;balloon 1 0;");
         none.launch(0, 0);
         check.due("nextReturn() if all are lost", none.nextReturn(), -2);
@@ -145,7 +155,8 @@ public final class PigeonBoundsTest {
         check.due("answeredPriority() after undo", full.answeredPriority(), 0);
     }
 
-    @Says(in = "Promise 39", value = {"Returns the number of balloons that have come down in a region, captured or landed.",
+    @Says(in = "Promise 39",
+            value = {"Returns the number of balloons that have come down in a region, captured or landed.",
         "Returns the number; INVALID if there is no such region."})
     static void balloons(Check check) {
         BalloonMail mail = fourLaunches();

@@ -3,7 +3,8 @@ import java.util.Random;
 /** Random runs of calls, each answer compared with the one of the model. The seeds are fixed. */
 public final class RandomRunsTest {
     private static final int RUNS = 400;
-    private static final int CALLS = 450;
+    /** Beyond its 512th call an object may answer what it likes: this leaves room for the last questions. */
+    private static final int CALLS = 400;
     private static final int[] ODD = {-1, -2, -3, 9, 10, 11, 24, 31, 32, 900, 901,
         Integer.MIN_VALUE, Integer.MAX_VALUE};
 
@@ -12,6 +13,7 @@ public final class RandomRunsTest {
     private final BalloonMail mail = new BalloonMail();
     private final Model model = new Model();
     private final int run;
+    private int calls;
 
     private RandomRunsTest(Check check, int run) {
         this.check = check;
@@ -31,15 +33,13 @@ public final class RandomRunsTest {
     }
 
     private void play() {
-        int calls = 0;
         if (random.nextInt(10) > 0) {
-            calls += handIn(siegeText());
+            handIn(siegeText());
         }
         while (calls < CALLS) {
-            calls++;
             if (random.nextInt(150) == 0) {
                 String text = siegeText();
-                calls += handIn(random.nextBoolean() ? text : spoil(text));
+                handIn(random.nextBoolean() ? text : spoil(text));
             } else if (random.nextInt(3) == 0) {
                 change();
             } else {
@@ -66,19 +66,17 @@ public final class RandomRunsTest {
     }
 
     private void due(String call, long got, long want) {
+        calls++;
         check.due("run " + run + " " + call, got, want);
     }
 
-    private int handIn(String text) {
-        int calls = 0;
+    private void handIn(String text) {
         for (int[] w : Check.words(text)) {
             due("append", mail.append(w[0], w[1], w[2], w[3], w[4]), model.append(w));
-            calls++;
         }
         int length = Math.min(text.length(), 900);
         due("parse of " + text, mail.parse(length), model.parse(length));
         due("errorPosition of " + text, mail.errorPosition(), model.errorPosition);
-        return calls + 2;
     }
 
     private int number(int low, int high) {
@@ -205,7 +203,7 @@ public final class RandomRunsTest {
     }
 
     private void dueTruth(String call, boolean got, boolean want) {
-        check.due("run " + run + " " + call, got, want);
+        due(call, got ? 1 : 0, want ? 1 : 0);
     }
 
     private void launch(int balloon, int letters) {
@@ -278,6 +276,7 @@ public final class RandomRunsTest {
 
     private void askEvent(int index) {
         if (index < 0 || index >= model.world.events.size()) {
+            calls += 3;
             check.dueThrows("run " + run + " eventKind(" + index + ")", () -> mail.eventKind(index));
             check.dueThrows("run " + run + " eventNumber(" + index + ")", () -> mail.eventNumber(index));
             check.dueThrows("run " + run + " eventDay(" + index + ")", () -> mail.eventDay(index));

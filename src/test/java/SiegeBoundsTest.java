@@ -1,23 +1,30 @@
 import java.util.function.Supplier;
+import java.util.function.ToIntBiFunction;
 import java.util.function.ToIntFunction;
 
 /** The boundaries of promises 1 to 10: the new object, the input buffer, parse and the counts. */
 public final class SiegeBoundsTest {
     private static final int BLANKS = 0x20202020;
-    private static final String SIEGE = "region 3 2 7;region 0 1 10;wind 0 6 1 3;wind 1 9;turn 0 1 4;turn 1 0 5;start 1;"
+    private static final String SIEGE = "region 3 2 7;region 0 1 10;"
+            + "wind 0 6 1 3;wind 1 9;turn 0 1 4;turn 1 0 5;start 1;"
             + "balloon 20 2;balloon 9 1;balloon 5 0;letter 4 3;letter 5 5;letter 6 2;loft 7;seed 31;";
 
     public static void main(String[] args) throws ReflectiveOperationException {
         Bounds.run(SiegeBoundsTest.class);
     }
 
-    /** A siege in the middle of things: days, launches, undos and snapshots lie behind, a text is begun. */
-    private static BalloonMail midway() {
+    /** A siege in the middle of things: days, a launch and a snapshot lie behind. */
+    private static BalloonMail midwayWithEmptyBuffer() {
         BalloonMail mail = Check.siege(SIEGE);
         mail.saveSnapshot(1);
         mail.nextDay();
         mail.launch(0, 1);
         mail.nextDay();
+        return mail;
+    }
+
+    private static BalloonMail midway() {
+        BalloonMail mail = midwayWithEmptyBuffer();
         Check.append(mail, "wind;");
         return mail;
     }
@@ -112,12 +119,34 @@ public final class SiegeBoundsTest {
         check.dueText("the empty siege", View.of(empty), View.of(new BalloonMail()));
     }
 
+    /** Nothing of earlier sieges, nor of texts with errors, is left in a later one. */
     @Says(in = "Promise 3", value = "On success it replaces the current siege.")
     static void success(Check check) {
-        BalloonMail mail = midway();
-        mail.parse(0);
-        check.due("parse", Check.parse(mail, SIEGE), 0);
-        check.dueText("the siege parsed again", View.of(mail), View.of(Check.siege(SIEGE)));
+        String full = "region 5 2 5;wind 0 9;wind 0 5;turn 0 1 5;start 1;loft 12;seed 5;letter 2 3;"
+                + "balloon 9 3;".repeat(4);
+        String other = "region 5 1 5;wind 0 9;letter 2 3;letter 1 1;" + "balloon 7 2;".repeat(4);
+        String[] texts = {SIEGE, full, "", full, other,
+            "wind;wind;turn 1 0 9;balloon 9 2;", "region 0 1 10;wind;wind 0 10;turn 0 1 9;balloon 8 2;", SIEGE};
+        for (int last = 0; last < texts.length; last++) {
+            BalloonMail mail = new BalloonMail();
+            for (int k = Math.max(0, last - 3); k < last; k++) {
+                check.due("parse", Check.parse(mail, texts[k]), 0);
+                flyAll(mail);
+                check.due("an error", Check.parse(mail, texts[k] + full + full), 2);
+            }
+            check.due("parse", Check.parse(mail, texts[last]), 0);
+            check.dueText("siege " + last + " after others", View.nowAndLater(mail),
+                    View.nowAndLater(Check.siege(texts[last])));
+        }
+    }
+
+    private static void flyAll(BalloonMail mail) {
+        mail.assignmentTotal();
+        for (int balloon = 0; balloon < mail.balloonCount(); balloon++) {
+            mail.launch(balloon, 0);
+        }
+        mail.saveSnapshot(0);
+        mail.nextDay();
     }
 
     @Says(in = "Promise 3", value = "On a parse error nothing changes except that the buffer is emptied; "
@@ -130,22 +159,19 @@ public final class SiegeBoundsTest {
         check.due("a success", mail.parse(20), 0);
         check.due("parse(1) after a success", mail.parse(1), -1);
         check.due("append after a success", mail.append(BLANKS, BLANKS, BLANKS, BLANKS, BLANKS), 20);
-        // the second text hides the error position and the emptied buffer, so that all else can be compared
         String[] wrong = {"?", "region 1 1 1;region 1 1 1;region 1 1 1", "loft 1;seed 2;wind;start 0;loft 2;",
             "balloon 1 1;letter 1 1;letter 100 1;", "wind;".repeat(7), "region 0 1 1;wind 0 5 0 5;"};
         for (String text : wrong) {
-            View.dueUnchanged(check, "a parse of '" + text + "'", () -> failed("??"), it -> {
-                Check.parse(it, text);
-                Check.parse(it, "??");
-            });
+            BalloonMail failed = midwayWithEmptyBuffer();
+            check.due("an error is found in '" + text + "'", Check.parse(failed, text) > 0, true);
+            check.dueText("after a parse of '" + text + "'", withoutPosition(View.nowAndLater(failed)),
+                    withoutPosition(View.nowAndLater(midwayWithEmptyBuffer())));
         }
     }
 
-    private static BalloonMail failed(String text) {
-        BalloonMail mail = midway();
-        mail.parse(3);
-        Check.parse(mail, text);
-        return mail;
+    /** The error position alone tells that there was a parse error. */
+    private static String withoutPosition(String view) {
+        return view.replaceAll("errorPosition\\(\\) = .*", "");
     }
 
     @Says(in = "Promise 3", value = "Returns 0 on success; the code of the parse error; "
@@ -237,31 +263,31 @@ public final class SiegeBoundsTest {
         counts(check, "letterCount()", "letter 1 1;", 24, BalloonMail::letterCount);
     }
 
+    /** One of a kind with the least value, and the most of it with the greatest value in the last one. */
+    private static void values(Check check, String name, String word, int most, int greatest,
+            ToIntBiFunction<BalloonMail, Integer> value) {
+        String others = word.equals("letter") ? "balloon 9 1;balloon 9 1;" : "letter 9 1;letter 9 1;";
+        BalloonMail one = Check.siege(word + " 1 1;" + others);
+        Bounds.within(check, name + " of one", 0, 0, number -> value.applyAsInt(one, number));
+        check.due("the least " + name, value.applyAsInt(one, 0), 1);
+        BalloonMail full = Check.siege((word + " 5 1;").repeat(most - 1) + word + " " + greatest + " 1;");
+        Bounds.within(check, name + " of " + most, 0, most - 1, number -> value.applyAsInt(full, number));
+        check.due("the greatest " + name, value.applyAsInt(full, most - 1), greatest);
+        check.due("a smaller siege", Check.parse(full, word + " 7 1;"), 0);
+        Bounds.within(check, name + " in the smaller siege", 0, 0, number -> value.applyAsInt(full, number));
+        BalloonMail none = Check.siege("wind;" + others);
+        Bounds.never(check, name + " of none", number -> value.applyAsInt(none, number));
+    }
+
     @Says(in = "Promise 9", value = {"Returns the capacity of a balloon.",
         "Returns the capacity; INVALID if there is no such balloon."})
     static void capacities(Check check) {
-        BalloonMail one = Check.siege("balloon 1 0;letter 9 9;letter 9 9;");
-        Bounds.within(check, "capacity", 0, 0, one::capacity);
-        check.due("the least capacity", one.capacity(0), 1);
-        BalloonMail ten = Check.siege("balloon 5 0;".repeat(9) + "balloon 999 0;");
-        Bounds.within(check, "capacity", 0, 9, ten::capacity);
-        check.due("the greatest capacity", ten.capacity(9), 999);
-        check.due("a smaller siege", Check.parse(ten, "balloon 7 0;"), 0);
-        Bounds.within(check, "capacity in the smaller siege", 0, 0, ten::capacity);
-        Bounds.never(check, "capacity without balloons", Check.siege("letter 1 1;wind;")::capacity);
+        values(check, "capacity", "balloon", 10, 999, BalloonMail::capacity);
     }
 
     @Says(in = "Promise 10", value = {"Returns the weight of a letter.",
         "Returns the weight; INVALID if there is no such letter."})
     static void letterWeights(Check check) {
-        BalloonMail one = Check.siege("letter 1 9;balloon 9 0;balloon 9 0;");
-        Bounds.within(check, "letterWeight", 0, 0, one::letterWeight);
-        check.due("the least weight", one.letterWeight(0), 1);
-        BalloonMail all = Check.siege("letter 5 1;".repeat(23) + "letter 99 1;");
-        Bounds.within(check, "letterWeight", 0, 23, all::letterWeight);
-        check.due("the greatest weight", all.letterWeight(23), 99);
-        check.due("a smaller siege", Check.parse(all, "letter 7 1;"), 0);
-        Bounds.within(check, "letterWeight in the smaller siege", 0, 0, all::letterWeight);
-        Bounds.never(check, "letterWeight without letters", Check.siege("balloon 1 1;wind;")::letterWeight);
+        values(check, "letterWeight", "letter", 24, 99, BalloonMail::letterWeight);
     }
 }

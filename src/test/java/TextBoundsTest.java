@@ -102,10 +102,22 @@ public final class TextBoundsTest {
             if (!statement.startsWith("wind")) {
                 check.bad(CONTEXT + statement + " 1;", 1, CONTEXT.length() + statement.length() + 1);
             }
+            misspelt(check, statement);
             shortened(check, statement.split(" "));
             all.append(statement).append(';');
         }
         check.good(all.toString());
+    }
+
+    /** The word with each of its letters changed, left out or doubled. */
+    private static void misspelt(Check check, String statement) {
+        for (int k = 0; k < statement.indexOf(' '); k++) {
+            String before = CONTEXT + statement.substring(0, k);
+            String after = statement.substring(k + 1) + ";";
+            check.bad(before + 'x' + after, 1, CONTEXT.length());
+            check.bad(before + after, 1, CONTEXT.length());
+            check.bad(before + statement.charAt(k) + statement.charAt(k) + after, 1, CONTEXT.length());
+        }
     }
 
     /** The statement cut after each of its tokens, by the end of the text or by a semicolon. */
@@ -153,7 +165,8 @@ public final class TextBoundsTest {
     }
 
     @Says(in = "SIEGE TEXT",
-            value = "Regions, winds, balloons and letters are numbered from 0, each kind in the order of its statements.")
+            value = "Regions, winds, balloons and letters are numbered from 0, "
+                + "each kind in the order of its statements.")
     static void numbering(Check check) {
         BalloonMail mail = Check.siege("balloon 1 0;letter 11 5;region 0 1 1;letter 12 6;wind 0 3;balloon 2 0;"
                 + "region 0 1 1;wind 0 1 1 7;balloon 3 0;letter 13 7;start 1;");

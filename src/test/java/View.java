@@ -4,6 +4,7 @@ import java.util.function.Supplier;
 /** All that an object answers, as a text, so that two objects can be compared. */
 final class View {
     private static final int MOST_UNDOS = 13;
+    private static final int DAYS = 3;
 
     private final BalloonMail mail;
     private final StringBuilder text = new StringBuilder();
@@ -87,24 +88,31 @@ final class View {
     }
 
     /** What is seen of an object now and later, the draws, the history, the slots and the buffer too. */
-    private static String nowAndLater(BalloonMail mail) {
+    static String nowAndLater(BalloonMail mail) {
         View later = new View(mail);
         later.text.append(of(mail)).append("-- later --\n");
-        for (int balloon = 0; balloon < mail.balloonCount(); balloon++) {
-            later.add("nextDay()", mail.nextDay());
+        for (int balloon = mail.balloonCount() - 1; balloon >= 0; balloon--) {
             later.add("launch(" + balloon + ", 0)", mail.launch(balloon, 0));
         }
-        later.addTotals();
+        later.addDays();
         for (int k = 0; k < MOST_UNDOS; k++) {
             later.add("undo()", mail.undo());
         }
         later.addTotals();
         for (int slot = 0; slot <= 1; slot++) {
             later.add("restoreSnapshot(" + slot + ")", mail.restoreSnapshot(slot));
-            later.addTotals();
+            later.addDays();
         }
         later.add("append()", mail.append(0, 0, 0, 0, 0));
         return later.text.toString();
+    }
+
+    private void addDays() {
+        addTotals();
+        for (int day = 0; day < DAYS; day++) {
+            add("nextDay()", mail.nextDay());
+        }
+        addEvents();
     }
 
     /** A call has changed nothing if nobody can tell its object from one on which it was not made. */
