@@ -1,4 +1,5 @@
 import java.util.function.Consumer;
+import java.util.function.IntUnaryOperator;
 
 /** The boundaries of promises 40 to 47: the journal, undo and the snapshots. */
 public final class ChangeBoundsTest {
@@ -8,6 +9,10 @@ public final class ChangeBoundsTest {
             + "balloon 9 2;balloon 9 1;balloon 9 0;letter 2 3;letter 4 5;seed 12;";
     private static final int LATEST_CHANGES = 12;
     private static final int LATEST_EVENTS = 16;
+    /** The events of eventsOfAllKinds. */
+    private static final int[] ALL_KINDS = {1, 5, 2, 5, 3, 4};
+    private static final int[] THEIR_NUMBERS = {9, 1, 8, 2, 7, 7};
+    private static final int[] THEIR_DAYS = {0, 1, 1, 2, 2, 3};
 
     public static void main(String[] args) throws ReflectiveOperationException {
         Bounds.run(ChangeBoundsTest.class);
@@ -65,19 +70,11 @@ public final class ChangeBoundsTest {
             + "kind 4, a pigeon came back, with the number of its balloon; "
             + "kind 5, the wind has changed to a different one, with the number of the new wind.")
     static void kindsOfEvents(Check check) {
-        BalloonMail mail = Check.siege("region 10 1 10;region 0 1 10;wind;wind 0 10;wind 1 10;turn 0 1 10;turn 1 2 10;"
-                + "balloon 1 1;".repeat(10));
-        mail.launch(9, 0);
+        BalloonMail mail = eventsOfAllKinds();
         mail.nextDay();
-        mail.launch(8, 0);
-        mail.nextDay();
-        mail.launch(7, 0);
-        mail.nextDay();
-        mail.nextDay();
-        int[][] due = {{1, 9, 0}, {5, 1, 1}, {2, 8, 1}, {5, 2, 2}, {3, 7, 2}, {4, 7, 3}};
-        check.due("eventCount(), none for a wind that stays", mail.eventCount(), due.length);
-        for (int index = 0; index < due.length; index++) {
-            dueEvent(check, mail, index, due[index][0], due[index][1], due[index][2]);
+        check.due("eventCount(), none for a wind that stays", mail.eventCount(), ALL_KINDS.length);
+        for (int index = 0; index < ALL_KINDS.length; index++) {
+            dueEvent(check, mail, index, ALL_KINDS[index], THEIR_NUMBERS[index], THEIR_DAYS[index]);
         }
         BalloonMail lost = Check.siege("region 0 1 0;wind 0 10;balloon 1 4;");
         lost.launch(0, 0);
@@ -106,19 +103,33 @@ public final class ChangeBoundsTest {
         int ask(BalloonMail mail, int index);
     }
 
-    /** Without events, with one, with all but one, just full, and after the wrap-around. */
-    private static void indexes(Check check, String name, Question question) {
+    /** Index 0 is the oldest event: before the journal is full, when it is just full, and after the wrap-around. */
+    private static void indexes(Check check, String name, Question question, IntUnaryOperator answerOfDay) {
+        int[] days = {1, 15, 16, 17, 40};
+        for (int passed : days) {
+            BalloonMail mail = after(RESTLESS, it -> passDays(it, passed));
+            int events = Math.min(passed, LATEST_EVENTS);
+            for (int index = 0; index < events; index++) {
+                int day = passed - events + 1 + index;
+                check.due(name + "(" + index + ") on day " + passed, question.ask(mail, index),
+                        answerOfDay.applyAsInt(day));
+            }
+        }
+    }
+
+    /** Beyond both ends: without events, with one, with all but one, just full, and after the wrap-around. */
+    private static void wrongIndexes(Check check, String name, Question question) {
         int[] days = {0, 1, 15, 16, 17, 40};
         for (int passed : days) {
-            BalloonMail mail = Check.siege(RESTLESS);
-            passDays(mail, passed);
+            BalloonMail mail = after(RESTLESS, it -> passDays(it, passed));
             int events = Math.min(passed, LATEST_EVENTS);
             int[] wrong = {-1, -2, events, events + 1, 17, Integer.MIN_VALUE, Integer.MAX_VALUE};
             for (int index : wrong) {
                 check.dueThrows(name + "(" + index + ") of " + events, () -> question.ask(mail, index));
             }
-            for (int index = 0; index < events; index++) {
-                check.due(name + "(" + index + ") is told", question.ask(mail, index) >= 0, true);
+            if (events > 0) {
+                check.due(name + " of the first event", question.ask(mail, 0) >= 0, true);
+                check.due(name + " of the last event", question.ask(mail, events - 1) >= 0, true);
             }
         }
         check.dueThrows(name + "(0) of a new object", () -> question.ask(new BalloonMail(), 0));
@@ -129,34 +140,71 @@ public final class ChangeBoundsTest {
                 mail -> check.dueThrows(name + "(-1)", () -> question.ask(mail, -1)));
     }
 
-    @Says(in = "Promise 41", value = {"Returns the kind of an event of the journal.",
-        "- `index`: index of the event, from 0 for the oldest one", "Returns 1 to 5.",
-        "Throws `IndexOutOfBoundsException` if there is no such event"})
+    /** A balloon falls into the sea, one is captured, one lands, and its pigeon comes back. */
+    private static BalloonMail eventsOfAllKinds() {
+        BalloonMail mail = Check.siege("region 10 1 10;region 0 1 10;wind;wind 0 10;wind 1 10;"
+                + "turn 0 1 10;turn 1 2 10;" + "balloon 1 1;".repeat(10));
+        for (int balloon = 9; balloon >= 7; balloon--) {
+            mail.launch(balloon, 0);
+            mail.nextDay();
+        }
+        return mail;
+    }
+
+    private static void dueAll(Check check, String name, Question question, int[] answers) {
+        BalloonMail mail = eventsOfAllKinds();
+        check.due("eventCount()", mail.eventCount(), answers.length);
+        for (int index = 0; index < answers.length; index++) {
+            check.due(name + "(" + index + ")", question.ask(mail, index), answers[index]);
+        }
+    }
+
+    @Says(in = "Promise 41", value = {"Returns the kind of an event of the journal.", "Returns 1 to 5."})
     static void eventKinds(Check check) {
-        indexes(check, "eventKind", BalloonMail::eventKind);
+        dueAll(check, "eventKind", BalloonMail::eventKind, ALL_KINDS);
+    }
+
+    @Says(in = "Promise 41", value = "- `index`: index of the event, from 0 for the oldest one")
+    static void eventKindIndexes(Check check) {
+        indexes(check, "eventKind", BalloonMail::eventKind, day -> 5);
+    }
+
+    @Says(in = "Promise 41", value = "Throws `IndexOutOfBoundsException` if there is no such event")
+    static void eventKindThrows(Check check) {
+        wrongIndexes(check, "eventKind", BalloonMail::eventKind);
     }
 
     @Says(in = "Promise 42",
             value = {"Returns the number that an event of the journal has: of a balloon, or of a wind for kind 5.",
-        "- `index`: index of the event, from 0 for the oldest one", "Returns the number.",
-        "Throws `IndexOutOfBoundsException` if there is no such event"})
+                "Returns the number."})
     static void eventNumbers(Check check) {
-        indexes(check, "eventNumber", BalloonMail::eventNumber);
+        dueAll(check, "eventNumber", BalloonMail::eventNumber, THEIR_NUMBERS);
     }
 
-    @Says(in = "Promise 43",
-            value = {"Returns the day of an event of the journal.", "For the kinds 4 and 5 this is the new day.",
-        "- `index`: index of the event, from 0 for the oldest one", "Returns the day.",
-        "Throws `IndexOutOfBoundsException` if there is no such event"})
+    @Says(in = "Promise 42", value = "- `index`: index of the event, from 0 for the oldest one")
+    static void eventNumberIndexes(Check check) {
+        indexes(check, "eventNumber", BalloonMail::eventNumber, day -> day % 2);
+    }
+
+    @Says(in = "Promise 42", value = "Throws `IndexOutOfBoundsException` if there is no such event")
+    static void eventNumberThrows(Check check) {
+        wrongIndexes(check, "eventNumber", BalloonMail::eventNumber);
+    }
+
+    @Says(in = "Promise 43", value = {"Returns the day of an event of the journal.",
+        "For the kinds 4 and 5 this is the new day.", "Returns the day."})
     static void eventDays(Check check) {
-        indexes(check, "eventDay", BalloonMail::eventDay);
-        BalloonMail mail = Check.siege(RESTLESS + "balloon 1 1;");
-        mail.launch(0, 0);
-        mail.nextDay();
-        mail.nextDay();
-        dueEvent(check, mail, 0, 3, 0, 0);
-        dueEvent(check, mail, 1, 5, 1, 1);
-        dueEvent(check, mail, 3, 4, 0, 2);
+        dueAll(check, "eventDay", BalloonMail::eventDay, THEIR_DAYS);
+    }
+
+    @Says(in = "Promise 43", value = "- `index`: index of the event, from 0 for the oldest one")
+    static void eventDayIndexes(Check check) {
+        indexes(check, "eventDay", BalloonMail::eventDay, day -> day);
+    }
+
+    @Says(in = "Promise 43", value = "Throws `IndexOutOfBoundsException` if there is no such event")
+    static void eventDayThrows(Check check) {
+        wrongIndexes(check, "eventDay", BalloonMail::eventDay);
     }
 
     // ---- undo
@@ -209,11 +257,8 @@ public final class ChangeBoundsTest {
         }
     }
 
-    @Says(in = "Promise 44",
-            value = {"Undoes the latest change that has not been undone.", "Returns true; false if there is none."})
+    @Says(in = "Promise 44", value = "Undoes the latest change that has not been undone.")
     static void undos(Check check) {
-        check.due("undo() of a new object", new BalloonMail().undo(), false);
-        View.dueUnchanged(check, "undo() without a change", () -> Check.siege(LOADED), BalloonMail::undo);
         View.dueUnchanged(check, "a day undone", () -> after(LOADED, it -> it.launch(0, 3)), mail -> {
             mail.nextDay();
             check.due("undo()", mail.undo(), true);
@@ -230,6 +275,20 @@ public final class ChangeBoundsTest {
             check.due("answeredPriority()", mail.answeredPriority(), 8);
             check.due("undo()", mail.undo(), true);
         });
+        View.dueUnchanged(check, "two changes undone, one of them made again", () -> after(LOADED, it -> it.nextDay()),
+                mail -> {
+                    mail.launch(1, 0);
+                    check.due("undo() of the launch", mail.undo(), true);
+                    check.due("undo() of the day", mail.undo(), true);
+                    mail.nextDay();
+                });
+    }
+
+    @Says(in = "Promise 44", value = "Returns true; false if there is none.")
+    static void nothingToUndo(Check check) {
+        check.due("undo() of a new object", new BalloonMail().undo(), false);
+        View.dueUnchanged(check, "undo() without a change", () -> Check.siege(LOADED),
+                mail -> check.due("undo()", mail.undo(), false));
         View.dueUnchanged(check, "all undone, and one more", () -> Check.siege(LOADED), mail -> {
             mail.launch(1, 1);
             passDays(mail, 11);
@@ -238,6 +297,11 @@ public final class ChangeBoundsTest {
             }
             check.due("undo() of nothing", mail.undo(), false);
         });
+        BalloonMail restored = after(LOADED, it -> passDays(it, 2));
+        restored.saveSnapshot(0);
+        restored.restoreSnapshot(0);
+        check.due("undo() after a restore", restored.undo(), false);
+        check.due("day()", restored.day(), 2);
     }
 
     @Says(in = "Promise 45", value = "Returns the number of changes that can be undone, 0 to 12.")
@@ -345,8 +409,7 @@ public final class ChangeBoundsTest {
         check.due("restoreSnapshot(0) in the empty siege", mail.restoreSnapshot(0), true);
     }
 
-    @Says(in = "Promise 46", value = {"Saves a snapshot in a slot, in place of an earlier one.", "- `slot`: 0 or 1",
-        "Returns true; false if there is no such slot."})
+    @Says(in = "Promise 46", value = "Saves a snapshot in a slot, in place of an earlier one.")
     static void saves(Check check) {
         BalloonMail mail = Check.siege(RESTLESS);
         for (int slot = 0; slot <= 1; slot++) {
@@ -360,6 +423,12 @@ public final class ChangeBoundsTest {
             mail.restoreSnapshot(slot);
             check.due("day() of the later one in slot " + slot, mail.day(), 1 + 2 * slot);
         }
+    }
+
+    @Says(in = "Promise 46", value = {"- `slot`: 0 or 1", "Returns true; false if there is no such slot."})
+    static void refusedSaves(Check check) {
+        check.due("saveSnapshot(0) of a new object", new BalloonMail().saveSnapshot(0), true);
+        check.due("saveSnapshot(1) of a new object", new BalloonMail().saveSnapshot(1), true);
         int[] wrong = {-1, -2, 2, 3, Integer.MIN_VALUE, Integer.MAX_VALUE};
         for (int slot : wrong) {
             View.dueUnchanged(check, "saveSnapshot(" + slot + ")", () -> after(LOADED, it -> passDays(it, 2)),
@@ -367,32 +436,56 @@ public final class ChangeBoundsTest {
         }
     }
 
-    @Says(in = "Promise 47", value = {"Restores the snapshot of a slot, which stays stored.",
-        "The undo history is cleared in any case.", "- `slot`: 0 or 1"})
-    static void restores(Check check) {
-        BalloonMail mail = Check.siege(RESTLESS);
-        mail.nextDay();
+    @Says(in = "Promise 47", value = "Restores the snapshot of a slot, which stays stored.")
+    static void restoresAgain(Check check) {
+        BalloonMail mail = after(RESTLESS, it -> passDays(it, 1));
         mail.saveSnapshot(1);
         for (int round = 0; round < 3; round++) {
             passDays(mail, 13);
-            check.due("undoDepth() before", mail.undoDepth(), LATEST_CHANGES);
             check.due("restoreSnapshot(1)", mail.restoreSnapshot(1), true);
             check.due("day()", mail.day(), 1);
+        }
+        check.due("restoreSnapshot(1) at once again", mail.restoreSnapshot(1), true);
+        check.due("day()", mail.day(), 1);
+        mail.nextDay();
+        mail.undo();
+        mail.undo();
+        check.due("restoreSnapshot(1) after undos", mail.restoreSnapshot(1), true);
+        check.due("day()", mail.day(), 1);
+    }
+
+    @Says(in = "Promise 47", value = "The undo history is cleared in any case.")
+    static void restoresClearTheHistory(Check check) {
+        int[] days = {0, 1, 12, 13};
+        for (int passed : days) {
+            BalloonMail mail = Check.siege(RESTLESS);
+            mail.saveSnapshot(0);
+            passDays(mail, passed);
+            check.due("undoDepth() before", mail.undoDepth(), Math.min(passed, LATEST_CHANGES));
+            check.due("restoreSnapshot(0)", mail.restoreSnapshot(0), true);
             check.due("undoDepth() after", mail.undoDepth(), 0);
             check.due("undo()", mail.undo(), false);
         }
-        mail.undo();
-        mail.saveSnapshot(0);
-        mail.nextDay();
-        mail.undo();
-        mail.nextDay();
-        mail.saveSnapshot(0);
-        check.due("restoreSnapshot(0) of the present state", mail.restoreSnapshot(0), true);
-        check.due("undoDepth() is cleared even then", mail.undoDepth(), 0);
-        check.due("day()", mail.day(), 2);
-        mail.nextDay();
-        check.due("undo() of a change after it", mail.undo(), true);
-        check.due("undo() of a change before it", mail.undo(), false);
+        BalloonMail present = after(RESTLESS, it -> passDays(it, 2));
+        present.saveSnapshot(0);
+        check.due("restoreSnapshot(0) of the present state", present.restoreSnapshot(0), true);
+        check.due("undoDepth() is cleared even then", present.undoDepth(), 0);
+        check.due("day()", present.day(), 2);
+        present.nextDay();
+        check.due("undo() of a change after it", present.undo(), true);
+        check.due("undo() of a change before it", present.undo(), false);
+    }
+
+    @Says(in = "Promise 47", value = "- `slot`: 0 or 1")
+    static void slots(Check check) {
+        for (int slot = 0; slot <= 1; slot++) {
+            BalloonMail mail = Check.siege(RESTLESS);
+            mail.saveSnapshot(slot);
+            check.due("restoreSnapshot(" + slot + ")", mail.restoreSnapshot(slot), true);
+            check.due("restoreSnapshot of the other slot", mail.restoreSnapshot(1 - slot), false);
+            check.due("restoreSnapshot(-1)", mail.restoreSnapshot(-1), false);
+            check.due("restoreSnapshot(2)", mail.restoreSnapshot(2), false);
+        }
     }
 
     @Says(in = "Promise 47",

@@ -10,9 +10,20 @@ public final class FlightBoundsTest {
 
     // ---- draws
 
-    @Says(in = "DRAWS", value = {"Draws come from a state x, which is the number of seed at first.",
-        "A draw replaces x by (x * 1103515245 + 12345) modulo 2147483648, computed without overflow, "
-            + "and gives the number x / 65536, rounded down, modulo 10."})
+    @Says(in = "DRAWS", value = "Draws come from a state x, which is the number of seed at first.")
+    static void firstDraws(Check check) {
+        for (int seed = 0; seed <= 9999; seed += 99) {
+            int draw = Bounds.draws(seed, 1)[0];
+            String text = "wind;wind;seed " + seed + ";turn 0 1 ";
+            check.due("the first draw is less than the next number", Check.siege(text + (draw + 1) + ";").nextDay(), 1);
+            if (draw > 0) {
+                check.due("the first draw is not less than itself", Check.siege(text + draw + ";").nextDay(), 0);
+            }
+        }
+    }
+
+    @Says(in = "DRAWS", value = "A draw replaces x by (x * 1103515245 + 12345) modulo 2147483648, "
+            + "computed without overflow, and gives the number x / 65536, rounded down, modulo 10.")
     static void draws(Check check) {
         String winds = "wind;wind;turn 0 1 5;turn 1 0 5;";
         int[] seeds = {0, 1, 2, 4999, 9998, 9999};
@@ -234,25 +245,47 @@ public final class FlightBoundsTest {
         throw new IllegalStateException("no such seed");
     }
 
-    @Says(in = "BALLOONS AND PIGEONS", value = {"All these chances are independent of each other.",
-        "A balloon has one of these states: 0 ready, 1 in the sea, 2 captured, 3 landed.",
-        "A letter has one of these states: 0 waiting, 1 lost (in the sea or captured), "
-            + "2 delivered (and not answered so far), 3 answered."})
-    static void states(Check check) {
-        BalloonMail mail = Check.siege("region 10 1 10;region 0 9 10;region 0 1 10;wind;wind 0 10;wind 1 10;wind 2 10;"
+    /** One balloon after another falls into the sea, is captured, lands far away, and lands near. */
+    private static BalloonMail fourFates() {
+        return Check.siege("region 10 1 10;region 0 9 10;region 0 1 10;wind;wind 0 10;wind 1 10;wind 2 10;"
                 + "turn 0 1 10;turn 1 2 10;turn 2 3 10;" + "balloon 9 1;".repeat(5) + "letter 1 1;".repeat(5));
-        int[] balloonStates = {1, 2, 3, 3};
+    }
+
+    @Says(in = "BALLOONS AND PIGEONS", value = {"All these chances are independent of each other.",
+        "A balloon has one of these states: 0 ready, 1 in the sea, 2 captured, 3 landed."})
+    static void statesOfBalloons(Check check) {
+        BalloonMail mail = fourFates();
+        int[] states = {1, 2, 3, 3};
         for (int balloon = 0; balloon < 4; balloon++) {
             check.due("balloonState(" + balloon + ") before", mail.balloonState(balloon), 0);
-            check.due("launch", mail.launch(balloon, 1 << balloon), balloonStates[balloon]);
+            check.due("launch", mail.launch(balloon, 0), states[balloon]);
+            check.due("balloonState(" + balloon + ") after", mail.balloonState(balloon), states[balloon]);
             mail.nextDay();
         }
-        int[] letterStates = {1, 1, 2, 3, 0};
-        for (int letter = 0; letter < 5; letter++) {
-            check.due("letterState(" + letter + ")", mail.letterState(letter), letterStates[letter]);
-        }
         check.due("balloonState(4)", mail.balloonState(4), 0);
-        check.due("balloonState(3) after the answer", mail.balloonState(3), 3);
+        check.due("balloonState(3) after the return of its pigeon", mail.balloonState(3), 3);
+    }
+
+    @Says(in = "BALLOONS AND PIGEONS",
+            value = "A letter has one of these states: 0 waiting, 1 lost (in the sea or captured), "
+                    + "2 delivered (and not answered so far), 3 answered.")
+    static void statesOfLetters(Check check) {
+        BalloonMail mail = fourFates();
+        for (int balloon = 0; balloon < 4; balloon++) {
+            mail.launch(balloon, 1 << balloon);
+            check.due("letterState after the launch", mail.letterState(balloon), balloon < 2 ? 1 : 2);
+            mail.nextDay();
+        }
+        int[] states = {1, 1, 2, 3, 0};
+        for (int letter = 0; letter < 5; letter++) {
+            check.due("letterState(" + letter + ")", mail.letterState(letter), states[letter]);
+        }
+        for (int day = 5; day <= 10; day++) {
+            mail.nextDay();
+        }
+        check.due("letterState(2) on the day before its answer", mail.letterState(2), 2);
+        mail.nextDay();
+        check.due("letterState(2) on the day of its answer", mail.letterState(2), 3);
     }
 
     // ---- days
@@ -305,8 +338,15 @@ public final class FlightBoundsTest {
                 mail -> mail.launch(balloon, letters));
     }
 
-    @Says(in = "Promise 26", value = {"Launches a balloon in the present wind.",
-        "It carries as many pigeons as its statement says."})
+    @Says(in = "Promise 26", value = "Launches a balloon in the present wind.")
+    static void windsOfLaunches(Check check) {
+        BalloonMail mail = Check.siege("region 0 1 1;wind;wind 0 10;turn 0 1 10;balloon 1 1;balloon 1 1;");
+        check.due("launch(0, 0) in wind 0", mail.launch(0, 0), 1);
+        mail.nextDay();
+        check.due("launch(1, 0) in wind 1", mail.launch(1, 0), 3);
+    }
+
+    @Says(in = "Promise 26", value = "It carries as many pigeons as its statement says.")
     static void pigeonsOfLaunches(Check check) {
         for (int pigeons = 0; pigeons <= 4; pigeons++) {
             BalloonMail mail = Check.siege(GOOD + "balloon 1 " + pigeons + ";loft 4;");
@@ -314,10 +354,6 @@ public final class FlightBoundsTest {
             check.due("pigeonsInLoft()", mail.pigeonsInLoft(), 4 - pigeons);
             check.due("pigeonsOnTheWay()", mail.pigeonsOnTheWay(), pigeons);
         }
-        BalloonMail turned = Check.siege("region 0 1 1;wind;wind 0 10;turn 0 1 10;balloon 1 1;balloon 1 1;");
-        check.due("launch(0, 0) in wind 0", turned.launch(0, 0), 1);
-        turned.nextDay();
-        check.due("launch(1, 0) in wind 1", turned.launch(1, 0), 3);
     }
 
     @Says(in = "Promise 26",
@@ -394,10 +430,9 @@ public final class FlightBoundsTest {
         }
     }
 
-    @Says(in = "Promise 27", value = {"Goes on to the next day: the wind changes or stays, the day increases by 1, "
-        + "and then the pigeons that are due on the new day come back, in the order in which they were released.",
-        "Without winds nothing is drawn.", "Returns the new wind; NONE if there are no winds."})
-    static void nextDays(Check check) {
+    @Says(in = "Promise 27", value = "Goes on to the next day: the wind changes or stays, the day increases by 1, "
+            + "and then the pigeons that are due on the new day come back, in the order in which they were released.")
+    static void orderOfADay(Check check) {
         BalloonMail mail = Check.siege("region 0 2 10;region 0 1 10;wind 0 10;wind 1 10;turn 0 1 10;turn 1 0 10;"
                 + "balloon 1 2;balloon 1 1;balloon 1 1;");
         mail.launch(2, 0);
@@ -406,6 +441,7 @@ public final class FlightBoundsTest {
         mail.launch(1, 0);
         check.due("eventCount() before the returns", mail.eventCount(), 4);
         check.due("nextDay()", mail.nextDay(), 0);
+        check.due("day()", mail.day(), 2);
         int[] kinds = {5, 4, 4, 4, 4};
         int[] numbers = {0, 2, 0, 0, 1};
         for (int k = 0; k < 5; k++) {
@@ -413,12 +449,32 @@ public final class FlightBoundsTest {
             check.due("eventNumber(" + (4 + k) + ")", mail.eventNumber(4 + k), numbers[k]);
             check.due("eventDay(" + (4 + k) + ")", mail.eventDay(4 + k), 2);
         }
+    }
+
+    /** Without winds no draw can be seen: all that shows is that the day passes and nothing else happens. */
+    @Says(in = "Promise 27", value = "Without winds nothing is drawn.")
+    static void daysWithoutWinds(Check check) {
+        BalloonMail mail = Check.siege("region 0 1 1;balloon 1 1;letter 1 1;");
+        mail.nextDay();
+        check.due("day()", mail.day(), 1);
+        check.due("undoDepth()", mail.undoDepth(), 1);
+        check.due("eventCount()", mail.eventCount(), 0);
+        check.due("launch(0, 1)", mail.launch(0, 1), -2);
+        check.due("undo()", mail.undo(), true);
+        check.due("day() after undo", mail.day(), 0);
+    }
+
+    @Says(in = "Promise 27", value = "Returns the new wind; NONE if there are no winds.")
+    static void newWinds(Check check) {
+        check.due("nextDay() of a new object", new BalloonMail().nextDay(), -2);
+        check.due("nextDay() without winds", Check.siege("region 0 1 1;balloon 1 1;").nextDay(), -2);
         check.due("nextDay() of one wind", Check.siege("wind;").nextDay(), 0);
-        BalloonMail calm = Check.siege("region 0 1 1;balloon 1 1;");
-        check.due("nextDay() without winds", calm.nextDay(), -2);
-        check.due("day() without winds", calm.day(), 1);
-        check.due("undoDepth() without winds", calm.undoDepth(), 1);
-        check.due("eventCount() without winds", calm.eventCount(), 0);
+        BalloonMail six = Check.siege("wind;".repeat(6)
+                + "turn 0 1 10;turn 1 2 10;turn 2 3 10;turn 3 4 10;turn 4 5 10;turn 5 0 10;");
+        for (int day = 1; day <= 13; day++) {
+            check.due("nextDay() of six winds", six.nextDay(), day % 6);
+            check.due("wind()", six.wind(), day % 6);
+        }
     }
 
     // ---- balloons and letters

@@ -138,14 +138,9 @@ public final class LoadBoundsTest {
         totals(check, "priorityOf", "letter 1 9;", 9, BalloonMail::priorityOf);
     }
 
-    @Says(in = "Promise 23", value = {"Returns the letters in a given state.", "- `state`: 0 to 3",
-        "Returns the set; INVALID if state is out of range."})
+    @Says(in = "Promise 23", value = {"Returns the letters in a given state.", "- `state`: 0 to 3"})
     static void lettersInStates(Check check) {
-        BalloonMail none = new BalloonMail();
-        Bounds.within(check, "lettersIn of the empty siege", 0, 3, none::lettersIn);
         BalloonMail mail = Check.siege(GOOD + "balloon 999 4;" + "letter 1 1;".repeat(24));
-        Bounds.within(check, "lettersIn", 0, 3, mail::lettersIn);
-        check.due("lettersIn(-2)", mail.lettersIn(-2), -1);
         dueStates(check, mail, ALL_LETTERS, 0, 0, 0);
         mail.launch(0, ALL_LETTERS);
         dueStates(check, mail, 0, 0, ALL_LETTERS, 0);
@@ -155,6 +150,15 @@ public final class LoadBoundsTest {
         BalloonMail sea = Check.siege("wind;balloon 999 4;" + "letter 1 1;".repeat(24));
         sea.launch(0, ALL_LETTERS);
         dueStates(check, sea, 0, ALL_LETTERS, 0, 0);
+    }
+
+    @Says(in = "Promise 23", value = "Returns the set; INVALID if state is out of range.")
+    static void noSuchState(Check check) {
+        Bounds.within(check, "lettersIn of the empty siege", 0, 3, new BalloonMail()::lettersIn);
+        BalloonMail mail = Check.siege("letter 1 1;".repeat(24));
+        Bounds.within(check, "lettersIn", 0, 3, mail::lettersIn);
+        check.due("lettersIn(-2)", mail.lettersIn(-2), -1);
+        check.due("lettersIn(5)", mail.lettersIn(5), -1);
     }
 
     private static void dueStates(Check check, BalloonMail mail, int... sets) {

@@ -122,21 +122,26 @@ public final class PigeonBoundsTest {
         check.due("nextReturn() out of the sea", none.nextReturn(), -2);
     }
 
-    @Says(in = "Promise 37", value = {"Returns the total weight of the letters in a state.", "- `state`: 0 to 3",
-        "Returns the weight; INVALID if state is out of range."})
+    @Says(in = "Promise 37", value = {"Returns the total weight of the letters in a state.", "- `state`: 0 to 3"})
     static void weights(Check check) {
         BalloonMail mail = fourLaunches();
-        Bounds.within(check, "weightIn", 0, 3, mail::weightIn);
-        check.due("weightIn(-2)", mail.weightIn(-2), -1);
         mail.nextDay();
         int[] due = {16, 3, 4, 8};
         for (int state = 0; state <= 3; state++) {
             check.due("weightIn(" + state + ")", mail.weightIn(state), due[state]);
         }
-        Bounds.within(check, "weightIn of the empty siege", 0, 3, new BalloonMail()::weightIn);
         BalloonMail full = Check.siege("letter 99 1;".repeat(24));
         check.due("the greatest weight", full.weightIn(0), 2376);
         check.due("weightIn(3) of no letter", full.weightIn(3), 0);
+    }
+
+    @Says(in = "Promise 37", value = "Returns the weight; INVALID if state is out of range.")
+    static void noSuchState(Check check) {
+        BalloonMail mail = fourLaunches();
+        Bounds.within(check, "weightIn", 0, 3, mail::weightIn);
+        check.due("weightIn(-2)", mail.weightIn(-2), -1);
+        check.due("weightIn(5)", mail.weightIn(5), -1);
+        Bounds.within(check, "weightIn of the empty siege", 0, 3, new BalloonMail()::weightIn);
     }
 
     @Says(in = "Promise 38", value = "Returns the total priority of the answered letters.")

@@ -99,24 +99,34 @@ public final class SiegeBoundsTest {
 
     // ---- parse
 
-    @Says(in = "Promise 3", value = {"Parses the first length bytes of the input buffer as a siege.",
-        "- `length`: 0 to the length of the buffer; 0 gives the empty siege"})
-    static void lengths(Check check) {
+    @Says(in = "Promise 3", value = "Parses the first length bytes of the input buffer as a siege.")
+    static void firstBytes(Check check) {
         String text = "wind;balloon 7 1;???";
-        for (int length = 0; length <= 20; length++) {
+        for (int length = 1; length <= 20; length++) {
             BalloonMail mail = Check.siege(SIEGE);
             Check.append(mail, text);
-            int code = length == 0 || length == 5 || length == 17 ? 0 : 1;
+            int code = length == 5 || length == 17 ? 0 : 1;
             check.due("parse(" + length + ")", mail.parse(length), code);
             if (code == 0) {
-                check.due("windCount() of " + length, mail.windCount(), length == 0 ? 0 : 1);
+                check.due("windCount() of " + length, mail.windCount(), 1);
                 check.due("balloonCount() of " + length, mail.balloonCount(), length == 17 ? 1 : 0);
                 check.due("regionCount() of " + length, mail.regionCount(), 0);
             }
         }
+    }
+
+    @Says(in = "Promise 3", value = "- `length`: 0 to the length of the buffer; 0 gives the empty siege")
+    static void lengths(Check check) {
+        for (int length = 0; length <= 900; length += 20) {
+            BalloonMail mail = new BalloonMail();
+            Check.append(mail, " ".repeat(length));
+            check.due("parse(-1) of " + length, mail.parse(-1), -1);
+            check.due("parse of one byte more than " + length, mail.parse(length + 1), -1);
+            check.due("parse of all " + length, mail.parse(length), 0);
+        }
         BalloonMail empty = midway();
         check.due("parse(0)", empty.parse(0), 0);
-        check.dueText("the empty siege", View.of(empty), View.of(new BalloonMail()));
+        check.dueText("the empty siege", View.nowAndLater(empty), View.nowAndLater(new BalloonMail()));
     }
 
     /** Nothing of earlier sieges, nor of texts with errors, is left in a later one. */

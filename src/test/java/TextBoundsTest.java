@@ -85,28 +85,56 @@ public final class TextBoundsTest {
 
     // ---- grammar
 
-    @Says(in = "SIEGE TEXT", value = {"siege     = { statement \";\" }",
-        "statement = \"region\" risk distance return",
-        "| \"turn\" wind wind weight",
-        "| \"balloon\" capacity pigeons",
-        "| \"letter\" weight priority",
-        "| \"loft\" count | \"start\" wind | \"seed\" number"})
-    static void statements(Check check) {
+    @Says(in = "SIEGE TEXT", value = "siege     = { statement \";\" }")
+    static void sieges(Check check) {
+        check.good("");
         check.bad(";", 1, 0);
         check.bad("7;", 1, 0);
+        check.bad("siege;", 1, 0);
         StringBuilder all = new StringBuilder(CONTEXT);
         for (String statement : STATEMENTS) {
-            check.good(CONTEXT + statement + ";");
             check.bad(CONTEXT + statement + ";;", 1, CONTEXT.length() + statement.length() + 1);
-            check.bad(CONTEXT + statement + " wind;", 1, CONTEXT.length() + statement.length() + 1);
-            if (!statement.startsWith("wind")) {
-                check.bad(CONTEXT + statement + " 1;", 1, CONTEXT.length() + statement.length() + 1);
-            }
-            misspelt(check, statement);
-            shortened(check, statement.split(" "));
             all.append(statement).append(';');
         }
         check.good(all.toString());
+    }
+
+    /** A statement with its tokens, with one too few or one too many, and with its word misspelt. */
+    private static void statement(Check check, String statement) {
+        check.good(CONTEXT + statement + ";");
+        check.bad(CONTEXT + statement + " wind;", 1, CONTEXT.length() + statement.length() + 1);
+        misspelt(check, statement);
+        shortened(check, statement.split(" "));
+        if (!statement.startsWith("wind")) {
+            check.bad(CONTEXT + statement + " 1;", 1, CONTEXT.length() + statement.length() + 1);
+        }
+    }
+
+    @Says(in = "SIEGE TEXT", value = "statement = \"region\" risk distance return")
+    static void regionStatements(Check check) {
+        statement(check, "region 2 2 2");
+    }
+
+    @Says(in = "SIEGE TEXT", value = "| \"turn\" wind wind weight")
+    static void turnStatements(Check check) {
+        statement(check, "turn 0 1 5");
+    }
+
+    @Says(in = "SIEGE TEXT", value = "| \"balloon\" capacity pigeons")
+    static void balloonStatements(Check check) {
+        statement(check, "balloon 5 1");
+    }
+
+    @Says(in = "SIEGE TEXT", value = "| \"letter\" weight priority")
+    static void letterStatements(Check check) {
+        statement(check, "letter 5 5");
+    }
+
+    @Says(in = "SIEGE TEXT", value = "| \"loft\" count | \"start\" wind | \"seed\" number")
+    static void singleStatements(Check check) {
+        statement(check, "loft 5");
+        statement(check, "start 1");
+        statement(check, "seed 5");
     }
 
     /** The word with each of its letters changed, left out or doubled. */
@@ -137,6 +165,7 @@ public final class TextBoundsTest {
 
     @Says(in = "SIEGE TEXT", value = "| \"wind\" { region weight }")
     static void pairsOfWinds(Check check) {
+        statement(check, "wind 0 5");
         String regions = REGION.repeat(8);
         String eight = "wind 0 1 1 1 2 1 3 1 4 1 5 1 6 1 7 1";
         check.good(regions + "wind;");
@@ -224,17 +253,12 @@ public final class TextBoundsTest {
         check.bad("wind;".repeat(6) + "wind;", 4, 30);
     }
 
-    @Says(in = "SIEGE TEXT", value = {"loft, start and seed can each occur once.",
-        "the word loft, start or seed of a second such statement."})
+    @Says(in = "SIEGE TEXT", value = "loft, start and seed can each occur once.")
     static void onceEach(Check check) {
-        String full = fullSiege();
-        check.bad(full + "loft 40;", 2, 874);
-        check.bad(full + "start 5;", 2, 874);
-        check.bad(full + "seed 9999;", 2, 874);
-        check.bad("loft 1;loft", 2, 7);
-        check.bad("loft 1;loft 99;", 2, 7);
-        check.bad("wind;start 0;wind;start 1;", 2, 18);
-        check.bad("seed 1;loft 1;seed", 2, 14);
+        check.good("loft 1;seed 1;wind;start 0;");
+        check.bad("loft 1;seed 1;wind;start 0;loft 1;", 2, 27);
+        check.bad("loft 1;seed 1;wind;start 0;seed 1;", 2, 27);
+        check.bad("loft 1;seed 1;wind;start 0;start 0;", 2, 27);
         BalloonMail mail = new BalloonMail();
         check.due("a second loft", Check.parse(mail, "loft 1;loft 2;"), 2);
         check.due("one loft in the next text", Check.parse(mail, "loft 3;wind;start 0;seed 1;"), 0);
@@ -420,6 +444,18 @@ public final class TextBoundsTest {
         check.bad("wind;wind;turn 0 1 10;turn 0 1 1;", 2, 29);
         check.bad("wind;wind;turn 0 1 1;turn 1 0 1;turn 1 0 1;", 2, 39);
         check.good("wind;wind;turn 0 1 1;turn 1 0 1;");
+    }
+
+    @Says(in = "SIEGE TEXT", value = "the word loft, start or seed of a second such statement.")
+    static void statementsNamedBefore(Check check) {
+        String full = fullSiege();
+        check.bad(full + "loft 40;", 2, 874);
+        check.bad(full + "start 5;", 2, 874);
+        check.bad(full + "seed 9999;", 2, 874);
+        check.bad("loft 1;loft", 2, 7);
+        check.bad("loft 1;loft 99;", 2, 7);
+        check.bad("wind;start 0;wind;start 1;", 2, 18);
+        check.bad("seed 1;loft 1;seed", 2, 14);
     }
 
     @Says(in = "SIEGE TEXT", value = "3: a number out of its range, also a weight that makes a sum exceed 10.")
