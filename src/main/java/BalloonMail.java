@@ -400,7 +400,7 @@ public final class BalloonMail {
     // ---- changes
 
     public boolean undo() {
-        if (undoable <= 0) {
+        if (undoable <= 0 || newest < 0 || newest >= history.length) {
             return false;
         }
         current.copyFrom(history[newest]);
@@ -437,7 +437,7 @@ public final class BalloonMail {
 
     /** The history is a ring: the thirteenth change takes the place of the oldest one. */
     private void rememberState() {
-        newest = newest < MAX_UNDO - 1 ? newest + 1 : 0;
+        newest = newest >= 0 && newest < MAX_UNDO - 1 ? newest + 1 : 0;
         history[newest].copyFrom(current);
         if (undoable < MAX_UNDO) {
             undoable++;

@@ -1,35 +1,32 @@
+import java.io.IOException;
 import java.lang.reflect.Constructor;
 import java.lang.reflect.Field;
 import java.lang.reflect.Method;
 import java.lang.reflect.Modifier;
+import java.nio.file.Files;
+import java.nio.file.Path;
 import java.util.Arrays;
+import java.util.List;
 import java.util.Set;
 import java.util.TreeSet;
+import java.util.regex.Matcher;
+import java.util.regex.Pattern;
+import java.util.stream.Collectors;
 
 /** The public face is the document's, and no member beside it can be seen from outside. */
 public final class FaceTest {
-    private static final String[] FACE = {
-        "int append(int,int,int,int,int)", "int parse(int)", "int errorPosition()",
-        "int regionCount()", "int windCount()", "int balloonCount()", "int letterCount()",
-        "int capacity(int)", "int letterWeight(int)", "long windChance(int,int)",
-        "long avoidChance(int,int)", "long landingChance(int,int)", "long deliveryChance(int)",
-        "long answerChance(int,int)", "int answerPermille(int,int)", "int bestDay(int)",
-        "long assignmentTotal()", "int assignedDay(int)", "int bestLoad(int)", "int weightOf(int)",
-        "int priorityOf(int)", "int lettersIn(int)", "int day()", "int wind()",
-        "int launch(int,int)", "int nextDay()", "int balloonState(int)", "int balloonRegion(int)",
-        "int cargo(int)", "int letterState(int)", "int answerDay(int)", "int pigeonsInLoft()",
-        "int pigeonsOnTheWay()", "int pigeonsLost()", "int nextReturn()", "int weightIn(int)",
-        "int answeredPriority()", "int balloonsIn(int)", "int eventCount()", "int eventKind(int)",
-        "int eventNumber(int)", "int eventDay(int)", "boolean undo()", "int undoDepth()",
-        "boolean saveSnapshot(int)", "boolean restoreSnapshot(int)",
-    };
+    private static final Path DOCUMENT = Path.of("../shared/DOC.md");
+    private static final Pattern FACE = Pattern.compile("(?s)## The public face\\s+```java\n(.*?)```");
+    private static final int METHODS = 46;
     private static final Set<String> CONSTANTS = Set.of("INVALID", "NONE", "TOO_HEAVY", "NO_PIGEONS");
 
-    public static void main(String[] args) {
+    public static void main(String[] args) throws IOException {
         Check check = new Check("FaceTest");
         Class<?> type = BalloonMail.class;
         check.due("public and final", type.getModifiers(), Modifier.PUBLIC | Modifier.FINAL);
-        checkMethods(check, type);
+        List<String> face = face();
+        checkSignatures(check, type, face);
+        checkNames(check, type);
         checkFields(check, type);
         checkNestedClasses(check, type);
         Constructor<?>[] constructors = type.getDeclaredConstructors();
@@ -43,37 +40,71 @@ public final class FaceTest {
         check.finish();
     }
 
-    private static void checkMethods(Check check, Class<?> type) {
+    /** The rows of the document's face, without the names of parameters and without the braces. */
+    private static List<String> face() throws IOException {
+        Matcher matcher = FACE.matcher(Files.readString(DOCUMENT));
+        if (!matcher.find()) {
+            throw new IllegalStateException("the document has no face");
+        }
+        return matcher.group(1).lines()
+                .map(row -> row.strip().replaceAll("int \\w+(?=[,)])", "int"))
+                .filter(row -> row.endsWith(";"))
+                .toList();
+    }
+
+    /** The face of the document is what can be seen of the class, to the exceptions and the values. */
+    private static void checkSignatures(Check check, Class<?> type, List<String> face) {
         Set<String> seen = new TreeSet<>();
-        Set<String> publicNames = new TreeSet<>();
-        Set<String> privateNames = new TreeSet<>();
+        seen.add("public BalloonMail();");
+        for (String constant : CONSTANTS) {
+            seen.add("public static final int " + constant + " = " + valueOf(type, constant) + ";");
+        }
         for (Method method : type.getDeclaredMethods()) {
-            if (Modifier.isPrivate(method.getModifiers())) {
-                privateNames.add(method.getName());
-            } else {
+            if (!Modifier.isPrivate(method.getModifiers())) {
                 seen.add(signature(method));
-                publicNames.add(method.getName());
-                check.due(method + " is public alone", method.getModifiers(), Modifier.PUBLIC);
             }
         }
-        for (Class<?> inside : type.getDeclaredClasses()) {
-            for (Method method : inside.getDeclaredMethods()) {
-                privateNames.add(method.getName());
-            }
+        check.due("rows of the face", face.size(), METHODS + CONSTANTS.size() + 1);
+        check.dueText("the face", String.join("\n", seen), String.join("\n", new TreeSet<>(face)));
+    }
+
+    private static int valueOf(Class<?> type, String constant) {
+        try {
+            return type.getField(constant).getInt(null);
+        } catch (ReflectiveOperationException e) {
+            throw new IllegalStateException("no constant " + constant, e);
         }
-        Set<String> due = new TreeSet<>(Arrays.asList(FACE));
-        check.due("methods " + seen + " are the face " + due, seen.equals(due), true);
-        privateNames.retainAll(publicNames);
-        check.due("hidden methods with names of the face " + privateNames, privateNames.size(), 0);
     }
 
     private static String signature(Method method) {
         StringBuilder text = new StringBuilder();
+        text.append(Modifier.toString(method.getModifiers())).append(' ');
         text.append(method.getReturnType()).append(' ').append(method.getName()).append('(');
-        for (Class<?> parameter : method.getParameterTypes()) {
-            text.append(text.charAt(text.length() - 1) == '(' ? "" : ",").append(parameter);
+        text.append(join(method.getParameterTypes())).append(')');
+        if (method.getExceptionTypes().length > 0) {
+            text.append(" throws ").append(join(method.getExceptionTypes()));
         }
-        return text.append(')').toString();
+        return text.append(';').toString();
+    }
+
+    private static String join(Class<?>[] types) {
+        return Arrays.stream(types).map(Class::getSimpleName).collect(Collectors.joining(", "));
+    }
+
+    private static void checkNames(Check check, Class<?> type) {
+        Set<String> publicNames = new TreeSet<>();
+        Set<String> hiddenNames = new TreeSet<>();
+        for (Method method : type.getDeclaredMethods()) {
+            boolean hidden = Modifier.isPrivate(method.getModifiers());
+            (hidden ? hiddenNames : publicNames).add(method.getName());
+        }
+        for (Class<?> inside : type.getDeclaredClasses()) {
+            for (Method method : inside.getDeclaredMethods()) {
+                hiddenNames.add(method.getName());
+            }
+        }
+        hiddenNames.retainAll(publicNames);
+        check.due("hidden methods with names of the face " + hiddenNames, hiddenNames.size(), 0);
     }
 
     private static void checkFields(Check check, Class<?> type) {
